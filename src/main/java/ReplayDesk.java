@@ -16,9 +16,9 @@ public final class ReplayDesk {
 
     // The shortest text that makes two entries (the loop and the jump back) is "@1[]".
     private static final int ENTRY_ROOM = TAPE_ROOM / 2;
-    // A < a sum and a product can be half done in each of the eleven X that stand within one another.
+    // In each of the eleven X that can stand within one another a product, a sum and a < may be half done.
     private static final int STACK_ROOM = 3 * (MOST_DEEP + 1) + 1;
-    // Behind a step come at most as many jumps as there are blocks to leave.
+    // Between two steps there are at most as many jumps as there are blocks to leave.
     private static final int MOST_TURNS = (MOST_STEPS + 1) * (MOST_DEEP + 2);
 
     // The kinds of events.
@@ -39,6 +39,9 @@ public final class ReplayDesk {
     private static final int STUCK = 3;
     private static final int STOPPED = 4;
     private static final int NO_ROOM = 5;
+
+    // Stands beside NONE where an event is asked for that ends an act or a timer.
+    private static final int NO_ORDER = -2;
 
     // The kinds of tokens; a sign is its own kind, so these stay below every character.
     private static final int TAPE_END = 0;
@@ -80,7 +83,6 @@ public final class ReplayDesk {
     private final Reader reader;
     private final History history;
     private final Run run;
-    private final Run before;
     private final Run told;
     private final Runner runner;
     private boolean hasProgram;
@@ -96,7 +98,6 @@ public final class ReplayDesk {
         reader = new Reader(tokens, draft);
         history = new History();
         run = new Run();
-        before = new Run();
         told = new Run();
         runner = new Runner(current, history, run);
         hasProgram = false;
@@ -128,11 +129,15 @@ public final class ReplayDesk {
 
     public int decide(int time) throws IllegalStateException {
         int start = history.size();
-        differsPlace = NONE;
-        refusal = tryDecision(time);
+        refusal = hasProgram ? runner.catchUp() : NO_PROGRAM;
+        differsPlace = refusal == DIFFERS ? runner.differsAt : NONE;
+        if (refusal == GOOD) {
+            refusal = runner.addDecision(time);
+        }
         if (refusal != GOOD) {
             throw new IllegalStateException("the decision is refused");
         }
+        told.copyFrom(run);
         return history.size() - start - 1;
     }
 
@@ -192,31 +197,6 @@ public final class ReplayDesk {
             default:
                 return NONE;
         }
-    }
-
-    private int tryDecision(int time) {
-        if (!hasProgram) {
-            return NO_PROGRAM;
-        }
-        int trouble = runner.catchUp();
-        if (trouble != GOOD) {
-            differsPlace = runner.differsAt;
-            run.restart();
-            return trouble;
-        }
-        if (run.stopped) {
-            return STOPPED;
-        }
-        int start = history.size();
-        before.copyFrom(run);
-        trouble = runner.addDecision(time);
-        if (trouble != GOOD) {
-            history.dropCommandsFrom(start);
-            run.copyFrom(before);
-            return trouble;
-        }
-        told.copyFrom(run);
-        return GOOD;
     }
 
     /** The characters that were typed and are not a program yet. */
@@ -296,12 +276,12 @@ public final class ReplayDesk {
             }
         }
 
-        boolean skip(int kind) {
-            if (kind() != kind) {
-                return false;
+        boolean take(int kind) {
+            boolean isThere = kind() == kind;
+            if (isThere) {
+                skip();
             }
-            skip();
-            return true;
+            return isThere;
         }
 
         boolean isWord(int sort) {
@@ -414,8 +394,8 @@ public final class ReplayDesk {
         // The NUMBER, the first register that is looked at, or the entry where a jump goes.
         private final int[] firsts = new int[ENTRY_ROOM];
         private final int[] seconds = new int[ENTRY_ROOM];
+        // An entry's items end where those of the next one begin.
         private final int[] itemsFrom = new int[ENTRY_ROOM];
-        private final int[] itemsTo = new int[ENTRY_ROOM];
         private final int[] itemSorts = new int[TAPE_ROOM];
         private final int[] itemValues = new int[TAPE_ROOM];
         private int size = 0;
@@ -434,7 +414,6 @@ public final class ReplayDesk {
             System.arraycopy(other.firsts, 0, firsts, 0, ENTRY_ROOM);
             System.arraycopy(other.seconds, 0, seconds, 0, ENTRY_ROOM);
             System.arraycopy(other.itemsFrom, 0, itemsFrom, 0, ENTRY_ROOM);
-            System.arraycopy(other.itemsTo, 0, itemsTo, 0, ENTRY_ROOM);
             System.arraycopy(other.itemSorts, 0, itemSorts, 0, TAPE_ROOM);
             System.arraycopy(other.itemValues, 0, itemValues, 0, TAPE_ROOM);
             size = other.size;
@@ -458,7 +437,6 @@ public final class ReplayDesk {
                 firsts[entry] = 0;
                 seconds[entry] = 0;
                 itemsFrom[entry] = items;
-                itemsTo[entry] = items;
                 size++;
             }
             return entry;
@@ -497,18 +475,6 @@ public final class ReplayDesk {
             }
         }
 
-        void startItems(int entry) {
-            if (holds(entry)) {
-                itemsFrom[entry] = items;
-            }
-        }
-
-        void endItems(int entry) {
-            if (holds(entry)) {
-                itemsTo[entry] = items;
-            }
-        }
-
         int sortAt(int entry) {
             return holds(entry) ? sorts[entry] : PROGRAM_END;
         }
@@ -530,7 +496,7 @@ public final class ReplayDesk {
         }
 
         int itemEnd(int entry) {
-            return holds(entry) ? itemsTo[entry] : 0;
+            return holds(entry + 1) ? itemsFrom[entry + 1] : items;
         }
 
         int itemSort(int item) {
@@ -585,9 +551,9 @@ public final class ReplayDesk {
                 return readLoop(depth);
             }
             if (tokens.kind() == REGISTER) {
-                return readAssignment(depth) && tokens.skip(';');
+                return readAssignment(depth) && tokens.take(';');
             }
-            return tokens.isWord(DO_STOP) && readStop(depth) && tokens.skip(';');
+            return tokens.isWord(DO_STOP) && readStop(depth) && tokens.take(';');
         }
 
         private boolean readChoice(int depth) {
@@ -596,12 +562,12 @@ public final class ReplayDesk {
             }
             int choice = made.add(DO_CHOICE, 0);
             tokens.skip();
-            if (!readWholeX(choice, depth + 1) || !tokens.skip('[') || !readStatements(depth + 1) || !tokens.skip('|')) {
+            if (!readX(depth + 1) || !tokens.take('[') || !readStatements(depth + 1) || !tokens.take('|')) {
                 return false;
             }
             int jump = made.addJump(0);
             made.setFirst(choice, made.size());
-            if (!readStatements(depth + 1) || !tokens.skip(']')) {
+            if (!readStatements(depth + 1) || !tokens.take(']')) {
                 return false;
             }
             made.setFirst(jump, made.size());
@@ -614,7 +580,7 @@ public final class ReplayDesk {
             }
             int loop = made.add(DO_LOOP, 0);
             tokens.skip();
-            if (!readWholeX(loop, depth + 1) || !tokens.skip('[') || !readStatements(depth + 1) || !tokens.skip(']')) {
+            if (!readX(depth + 1) || !tokens.take('[') || !readStatements(depth + 1) || !tokens.take(']')) {
                 return false;
             }
             made.addJump(loop);
@@ -623,19 +589,19 @@ public final class ReplayDesk {
         }
 
         private boolean readStop(int depth) {
-            int entry = made.add(DO_STOP, 0);
+            made.add(DO_STOP, 0);
             tokens.skip();
-            return readWholeX(entry, depth);
+            return readX(depth);
         }
 
         private boolean readAssignment(int depth) {
             int entry = made.add(DO_SET, tokens.value());
             tokens.skip();
-            if (!tokens.skip('=')) {
+            if (!tokens.take('=')) {
                 return false;
             }
             if (tokens.kind() != WORD) {
-                return readWholeX(entry, depth);
+                return readX(depth);
             }
             int sort = tokens.value();
             if (sort == DO_STOP) {
@@ -649,14 +615,14 @@ public final class ReplayDesk {
         private boolean readRest(int sort, int entry, int depth) {
             switch (sort) {
                 case DO_ACT:
-                    return readFirst(entry, NUMBER) && tokens.skip(',') && readWholeX(entry, depth);
+                    return readFirst(entry, NUMBER) && tokens.take(',') && readX(depth);
                 case DO_TIMER:
-                    return readWholeX(entry, depth);
+                    return readX(depth);
                 case DO_WAIT:
                 case DO_ENDED:
                     return readFirst(entry, REGISTER);
                 case DO_ANY:
-                    return readFirst(entry, REGISTER) && tokens.skip(',') && readSecond(entry);
+                    return readFirst(entry, REGISTER) && tokens.take(',') && readSecond(entry);
                 case DO_PATCH:
                     return readFirst(entry, NUMBER);
                 default:
@@ -666,26 +632,19 @@ public final class ReplayDesk {
 
         private boolean readFirst(int entry, int kind) {
             made.setFirst(entry, tokens.value());
-            return tokens.skip(kind);
+            return tokens.take(kind);
         }
 
         private boolean readSecond(int entry) {
             made.setSecond(entry, tokens.value());
-            return tokens.skip(REGISTER);
-        }
-
-        private boolean readWholeX(int entry, int depth) {
-            made.startItems(entry);
-            boolean good = readX(depth);
-            made.endItems(entry);
-            return good;
+            return tokens.take(REGISTER);
         }
 
         private boolean readX(int depth) {
             if (!readPart(depth)) {
                 return false;
             }
-            if (!tokens.skip('<')) {
+            if (!tokens.take('<')) {
                 return true;
             }
             if (!readPart(depth)) {
@@ -736,7 +695,7 @@ public final class ReplayDesk {
             }
             tokens.skip();
             if (kind == '(') {
-                return readX(depth + 1) && tokens.skip(')');
+                return readX(depth + 1) && tokens.take(')');
             }
             if (!readFactor(depth + 1)) {
                 return false;
@@ -818,7 +777,7 @@ public final class ReplayDesk {
         }
 
         /** For a decision that is taken back: nothing of the others stands behind its begin. */
-        void dropCommandsFrom(int start) {
+        void dropDecision(int start) {
             if (start >= 0 && start < size) {
                 size = start;
             }
@@ -833,11 +792,11 @@ public final class ReplayDesk {
         }
 
         boolean isAt(int i, int kind, int ref, int value) {
-            return kindAt(i) == kind && refAt(i) == ref && valueAt(i) == value;
+            return holds(i) && kinds[i] == kind && refs[i] == ref && values[i] == value;
         }
 
         /** The event by which event i is over ahead of the place, or NONE. */
-        int enderOf(int i, int place) {
+        int endOf(int i, int place) {
             return holds(i) && overBy[i] < place ? overBy[i] : NONE;
         }
 
@@ -920,6 +879,7 @@ public final class ReplayDesk {
         private final Program program;
         private final History history;
         private final Run run;
+        private final Run before = new Run();
         private final int[] stack = new int[STACK_ROOM];
         private int height = 0;
         private int begin = 0;
@@ -937,13 +897,13 @@ public final class ReplayDesk {
             this.run = run;
         }
 
-        /** Runs the decisions that the run has not seen yet: GOOD, or why it can't go on. */
+        /** Runs the decisions that were not run yet: GOOD, or why it can't be done. */
         int catchUp() {
-            differsAt = NONE;
             for (int i = run.behind; i < history.size(); i++) {
                 if (history.kindAt(i) == BEGIN) {
                     runDecision(i, history.decisionEnd(i), false);
                     if (trouble != GOOD) {
+                        run.restart();
                         return trouble;
                     }
                 }
@@ -952,14 +912,23 @@ public final class ReplayDesk {
             return GOOD;
         }
 
-        /** Adds a decision to the history, which keeps what was added even if this can't be finished. */
+        /** Adds a decision to the history behind all that were run: GOOD, or why it can't be done. */
         int addDecision(int time) {
+            if (run.stopped) {
+                return STOPPED;
+            }
             int start = history.size();
             if (!history.add(BEGIN, 0, time)) {
                 return NO_ROOM;
             }
+            before.copyFrom(run);
             runDecision(start, EVENT_ROOM, true);
-            run.behind = history.size();
+            if (trouble == GOOD) {
+                run.behind = history.size();
+            } else {
+                run.copyFrom(before);
+                history.dropDecision(start);
+            }
             return trouble;
         }
 
@@ -972,28 +941,20 @@ public final class ReplayDesk {
             trouble = GOOD;
             run.steps = 0;
             for (int i = 0; i < MOST_TURNS && trouble == GOOD && !waits && !run.stopped; i++) {
-                turn(program.sortAt(run.entry));
+                turn(program.sortAt(run.entry), program.firstAt(run.entry));
             }
             if (trouble == GOOD && !isNew && place < end) {
                 differ();
             }
         }
 
-        private void turn(int sort) {
-            if (sort == JUMP) {
-                run.entry = program.firstAt(run.entry);
-            } else if (sort == PROGRAM_END) {
-                stop(0);
-            } else if (run.steps >= MOST_STEPS) {
+        private void turn(int sort, int first) {
+            boolean isStep = sort != JUMP && sort != PROGRAM_END;
+            if (isStep && run.steps >= MOST_STEPS) {
                 trouble = STUCK;
-            } else {
-                run.steps++;
-                step(sort);
+                return;
             }
-        }
-
-        private void step(int sort) {
-            int first = program.firstAt(run.entry);
+            run.steps += isStep ? 1 : 0;
             switch (sort) {
                 case DO_SET:
                     finish(workOut());
@@ -1011,7 +972,7 @@ public final class ReplayDesk {
                     waitForAny(run.get(first), run.get(program.secondAt(run.entry)));
                     break;
                 case DO_ENDED:
-                    finish(isSo(run.get(first)) ? 1 : 0);
+                    finish(endOf(run.get(first)) == NONE ? 0 : 1);
                     break;
                 case DO_SIG:
                     takeSignal();
@@ -1024,6 +985,12 @@ public final class ReplayDesk {
                     break;
                 case DO_STOP:
                     stop(workOut());
+                    break;
+                case PROGRAM_END:
+                    stop(0);
+                    break;
+                case JUMP:
+                    run.entry = first;
                     break;
                 default:
                     // Left are the choice and the loop, which both go elsewhere for 0.
@@ -1079,11 +1046,11 @@ public final class ReplayDesk {
         }
 
         private void waitFor(int told) {
-            int by = history.enderOf(told, begin);
-            if (!tellsOrder(told)) {
-                finish(-2);
-            } else if (by == NONE) {
+            int by = endOf(told);
+            if (by == NONE) {
                 waits = true;
+            } else if (by == NO_ORDER) {
+                finish(-2);
             } else {
                 // A fired timer's value is 0 in the history already.
                 finish(history.kindAt(by) == FAILED ? -1 : history.valueAt(by));
@@ -1091,9 +1058,9 @@ public final class ReplayDesk {
         }
 
         private void waitForAny(int first, int second) {
-            if (isSo(first)) {
+            if (endOf(first) != NONE) {
                 finish(1);
-            } else if (isSo(second)) {
+            } else if (endOf(second) != NONE) {
                 finish(2);
             } else {
                 waits = true;
@@ -1110,14 +1077,14 @@ public final class ReplayDesk {
             }
         }
 
-        private boolean isSo(int told) {
-            return !tellsOrder(told) || history.enderOf(told, begin) != NONE;
-        }
-
-        /** Only what stands ahead of the next command counts: in an old decision the history goes on behind it. */
-        private boolean tellsOrder(int told) {
+        /** The event by which the act or timer that is told is over, NONE if it is not, NO_ORDER if none is told. */
+        private int endOf(int told) {
             int kind = history.kindAt(told);
-            return told < place && (kind == ACT || kind == TIMER);
+            // In an old decision the history goes on behind the next command, but the program can't know that yet.
+            if (told >= place || (kind != ACT && kind != TIMER)) {
+                return NO_ORDER;
+            }
+            return history.endOf(told, begin);
         }
 
         private int workOut() {
