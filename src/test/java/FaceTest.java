@@ -6,7 +6,7 @@ import java.util.Arrays;
 import java.util.Set;
 import java.util.TreeSet;
 
-/** The class shows the document's face and nothing else. */
+/** The section "The public face": the class shows these members and no others, and NONE is -1. */
 public final class FaceTest {
     private static int wrong = 0;
 

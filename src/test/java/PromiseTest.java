@@ -1,975 +1,846 @@
-import java.util.NoSuchElementException;
+import java.util.function.Consumer;
+import java.util.function.Supplier;
 
-/** Each promise of the document, with ordinary inputs, the edges that it names, and wrong inputs. */
-public final class PromiseTest {
-    private static final int NONE = ReplayDesk.NONE;
-    private static int wrong = 0;
-    private static String part = "";
-
+/** The promises, from the first to the last; each sentence with ordinary inputs, the edges that it names, and wrong inputs. */
+public final class PromiseTest extends Sentences {
     public static void main(String[] args) {
+        lastCall();
         newObject();
-        typing();
-        typingUpToTheEnd();
-        programs();
-        tokens();
-        faults();
-        faultsOfDepth();
-        everyRoomIsEnough();
-        arithmetic();
-        commands();
-        waiting();
-        waitingForNothing();
-        any();
-        ended();
-        signals();
-        now();
-        blocks();
-        steps();
-        stuckInTheOld();
-        patches();
-        differing();
-        differingAndStuck();
-        noRoom();
-        refusals();
+        objectsApart();
+        lowestBytes();
+        refusedBytes();
+        refusedNumberOfBytes();
+        fullTape();
+        programTakesTheTape();
+        programCounts();
+        historyStays();
+        programWithAFault();
+        latestFault();
+        decision();
+        decisionAddsToTheHistory();
+        noProgramFirst();
+        differsOrStuckBeforeStopped();
+        differsOrStuckWhatComesFirst();
+        stoppedBeforeNoRoom();
+        stuckOrNoRoomWhatComesFirst();
+        refusedDecisionLeavesNoTrace();
+        refused();
+        differs();
         happenings();
-        crashes();
-        clearing();
+        refusedKinds();
+        refusedRefs();
+        refusedValues();
+        refsThatAreOver();
+        noRoomForOthers();
+        refusedHappeningLeavesNoTrace();
+        crash();
+        nothingSeenChanges();
+        clear();
         events();
+        noSuchEvents();
         registers();
-        totals();
-        System.out.println(wrong == 0 ? "all promises hold" : wrong + " answers are not as due");
-        if (wrong != 0) {
-            System.exit(1);
-        }
+        noSuchRegisters();
+        totalsOfTheHistory();
+        totalOfStops();
+        totalOfSteps();
+        totalOfSignals();
+        totalsAsTold();
+        otherTotals();
+        finish();
     }
 
-    // Promise 1
+    // What it is, and promise 1
+
+    private static void lastCall() {
+        sentence("An object is used for at most 512 calls after it has been made");
+        Desk x = Desk.with("@1[a=sig;b=b+a;]");
+        for (int i = 0; i < 100; i++) {
+            x.happen(8, 0, i);
+            x.crash();
+            x.decide(i);
+        }
+        due("200 events", 200, x.total(0));
+        while (x.calls() < Desk.MOST_CALLS - 3) {
+            x.crash();
+        }
+        due("the 510th call", THROWS, x.decide(0));
+        due("the 511th call", 5, x.refused());
+        due("the 512th call", 4950, x.register(1));
+        due("all calls were made", Desk.MOST_CALLS, x.calls());
+    }
 
     private static void newObject() {
-        part = "1 new object";
-        ReplayDesk x = new ReplayDesk();
-        for (int what = 0; what <= 5; what++) {
-            due("total " + what, 0, x.total(what));
-        }
-        for (int r = 0; r < 8; r++) {
-            due("register " + r, 0, x.register(r));
-        }
-        due("fault", NONE, x.fault());
-        due("refused", 0, x.refused());
-        due("differs", NONE, x.differs());
-        due("event", true, hasNoEvent(x, 0, 0));
-        refuse(x, 1, NONE);
-        due("events after a refusal", 0, x.total(0));
-        due("the tape is empty", 0, x.program());
+        sentence("No PROGRAM, no EVENTS.");
+        Desk x = new Desk();
+        due("totals", "0 0 0 0 0 0", x.totals());
+        due("registers", "0 0 0 0 0 0 0 0", x.registers());
+        due("no fault", NONE, x.fault());
+        due("nothing was refused", 0, x.refused());
+        due("nothing differs", NONE, x.differs());
+        due("no event", THROWS, x.event(0, 0));
+        due("no act that could be done", false, x.happen(5, 0, 0));
+        due("no program", "1 at -1", x.refusal());
+        due("nothing on the tape", 0, x.program());
+    }
+
+    private static void objectsApart() {
+        sentence("No PROGRAM, no EVENTS.");
+        Desk x = Desk.decided("a=act 1,1;b=wait a;");
+        x.write("stop");
+        Desk y = new Desk();
+        due("a second object", "; 0 0 0 0 0 0 0 0; 0 0 0 0 0 0", y.seen());
+        due("its program", "1 at -1", y.refusal());
+        due("its tape", 0, y.program());
+        due("the first one's act", true, x.happen(5, 1, 4));
+        due("the first one's tape", 1, x.program(" 1;"));
     }
 
     // Promise 2
 
-    private static void typing() {
-        part = "2 type";
-        ReplayDesk x = new ReplayDesk();
-        due("n 0", false, x.type('a', 0));
-        due("n 9", false, x.type('a', 9));
-        due("n -1", false, x.type('a', -1));
-        due("least n", false, x.type('a', Integer.MIN_VALUE));
-        due("most n", false, x.type('a', Integer.MAX_VALUE));
-        due("byte 31", false, x.type(31, 1));
-        due("byte 127", false, x.type(127, 1));
-        due("byte 128", false, x.type(128, 1));
-        due("byte 255", false, x.type(-1L, 8));
-        due("byte 0 ahead", false, x.type('a', 2));
-        due("a bad byte in the middle", false, x.type(0x610a62, 3));
-        due("a bad byte at the end", false, x.type(0x61620a, 3));
-        due("a bad highest byte", false, x.type(0x8061616161616161L, 8));
-        due("nothing was typed", 0, x.program());
-        due("bytes above n don't count", true, x.type(0x00ff0a613d313bL, 4));
-        due("highest first", 1, x.program());
-        due("eight", true, x.type(0x2020613d31323320L, 8));
-        due("one", true, x.type(';', 1));
-        due("two calls", 1, x.program());
-        due("edges 32 and 126", true, x.type(0x207e, 2));
-        due("126 is no token", 1, faultOf(x, ""));
+    private static void lowestBytes() {
+        sentence("The n (1 .. 8) lowest bytes of word, the highest first, go to the TAPE: true;");
+        String text = "a=12345;";
+        long word = 0x613d31323334353bL;
+        for (int n = 1; n <= 8; n++) {
+            Desk x = new Desk();
+            x.write(text.substring(0, 8 - n));
+            due("the lowest " + n, true, x.type(word, n));
+            due("the program of the lowest " + n, 1, x.program());
+            x.decide(0);
+            due("the value of the lowest " + n, 12345, x.register(0));
+        }
+        Desk x = new Desk();
+        due("bytes above the lowest are free", true, x.type(0xff000a7f613d313bL, 4));
+        due("they are not on the tape", 1, x.program());
+        due("a word below 0", true, x.type(0x80613d313b2020L | 1L << 63, 6));
+        due("it is the same", 1, x.program());
+        due("the least and the most byte", true, x.type(0x207e, 2));
+        due("126 is there", 1, x.faultOf(""));
     }
 
-    private static void typingUpToTheEnd() {
-        part = "2 type, 400";
-        ReplayDesk x = new ReplayDesk();
-        type(x, " ".repeat(393));
-        due("8 are too many", false, x.type(0x2020202020202020L, 8));
-        due("7 are not", true, x.type(0x20202020202020L, 7));
-        due("401", false, x.type(' ', 1));
-        due("blanks alone", 0, x.program());
-        due("the tape is empty again", true, x.type('a', 1));
-        due("all 400", 400, faultOf(x, "=1" + " ".repeat(397)));
+    private static void refusedBytes() {
+        sentence("false, changing nothing, for another n, a byte that is not 32 .. 126");
+        for (int n = 1; n <= 8; n++) {
+            for (int at = 0; at < n; at++) {
+                Desk x = new Desk();
+                x.write("a=1");
+                for (int bad : new int[] {0, 31, 127, 128, 255}) {
+                    long word = 0x3b3b3b3b3b3b3b3bL & ~(255L << 8 * at) | (long) bad << 8 * at;
+                    due("byte " + bad + " at " + at + " of " + n, false, x.type(word, n));
+                }
+                due("the tape is as it was", 1, x.program(";"));
+            }
+        }
+    }
+
+    private static void refusedNumberOfBytes() {
+        sentence("false, changing nothing, for another n");
+        Desk x = new Desk();
+        x.write("a=1");
+        for (int n : new int[] {0, 9, -1, 16, 64, 257, -8, LEAST, MOST}) {
+            due("n " + n, false, x.type(0x3b3b3b3b3b3b3b3bL, n));
+        }
+        due("the tape is as it was", 1, x.program(";"));
+    }
+
+    private static void fullTape() {
+        sentence("or if it would have more than 400.");
+        for (int n = 1; n <= 8; n++) {
+            Desk x = new Desk();
+            x.write("a=1;" + " ".repeat(397 - n));
+            due("one too many with " + n, false, x.type(0x3b3b3b3b3b3b3b3bL, n));
+            due("the tape is as it was", 1, x.program());
+            x.write("a=1;" + " ".repeat(396 - n));
+            due("just enough with " + n, true, x.type(0x2020202020202020L, n));
+            due("one more", false, x.type(' ', 1));
+            due("400 characters", 1, x.program());
+            due("room again", true, x.type(' ', 1));
+        }
     }
 
     // Promises 3 and 4
 
-    private static void programs() {
-        part = "3 program";
-        ReplayDesk x = new ReplayDesk();
-        due("each statement", 12, program(x, "a=1;b=act 1,2;c=timer 3;d=wait b;e=any b,c;f=ended b;g=sig;h=now;a=patch 1;"
-                + "?a[|]@0[]stop 1;"));
-        due("within blocks", 7, program(x, "?1[a=1;b=1;|c=1;@0[d=1;]]stop 0;"));
-        due("none", 0, program(x, ""));
-        due("good", NONE, x.fault());
-        due("fault", 2, faultOf(x, "a=;"));
-        due("the fault stays", 2, x.fault());
-        due("the tape is empty behind a fault", 0, x.program());
-        due("the fault is gone", NONE, x.fault());
+    private static void programTakesTheTape() {
+        sentence("The TAPE (which is empty then in any case) becomes the PROGRAM");
+        Desk x = new Desk();
+        x.write("stop 5;");
+        due("a good one", 1, x.program());
+        due("the tape is empty", 0, x.program());
+        x.decide(0);
+        due("the latest is the program", "0 0 0, 4 0 0", x.events());
+        x.write("stop 5; stop");
+        due("a fault", THROWS, x.program());
+        due("the tape is empty, too", 0, x.program());
+        x.write(" ".repeat(400));
+        x.program();
+        due("room for 400 behind a good one", NONE, x.faultOf(" ".repeat(400)));
+        due("a fault of 400", 0, x.faultOf("]".repeat(400)));
+        due("room for 400 behind a fault", NONE, x.faultOf(" ".repeat(400)));
+    }
 
-        program(x, "stop 5;");
-        faultOf(x, "stop 6; stop");
-        due("the old program stays behind a fault", 1, x.decide(1));
-        due("its stop", "4 0 5", event(x, 1));
+    private static void programCounts() {
+        sentence("how many STATEMENTS.");
+        due("none", 0, new Desk().program(""));
+        due("one", 1, new Desk().program("a=1;"));
+        due("each sort", 12, new Desk().program("a=1;b=act 1,2;c=timer 3;d=wait b;e=any b,c;f=ended b;g=sig;h=now;a=patch 1;?a[|]@0[]stop 1;"));
+        due("within blocks", 7, new Desk().program("?1[a=1;b=1;|c=1;@0[d=1;]]stop 0;"));
+        due("a tape full of statements", 100, new Desk().program("a=1;".repeat(100)));
+        due("a tape full of loops", 100, new Desk().program("@0[]".repeat(100)));
+        due("a tape full of choices", 80, new Desk().program("?1[|]".repeat(80)));
+        due("a loop's steps", 100, Desk.decided("@0[]".repeat(100)).total(4));
+        due("a choice's steps", 80, Desk.decided("?1[|]".repeat(80)).total(4));
+    }
 
-        x = new ReplayDesk();
-        program(x, "a=act 1,1;b=wait a;");
-        x.decide(1);
-        program(x, "c=act 1,1;d=wait c;stop 3;");
-        due("the history stays", 2, x.total(0));
-        due("registers stay", 1, x.register(0));
-        due("totals stay", 2, x.total(4));
-        x.happen(5, 1, 9);
+    private static void historyStays() {
+        sentence("(the HISTORY stays)");
+        Desk x = Desk.decided("a=act 1,1;b=wait a;");
+        x.happen(8, 0, 5);
+        String seen = x.seen();
+        x.program("c=act 1,1;d=wait c;stop 3;");
+        due("all that is seen stays", seen, x.seen());
+        due("the act stays open", true, x.happen(5, 1, 9));
         due("the new program goes on", 1, x.decide(2));
-        due("the new program's registers", 9, x.register(3));
-        due("the old one's are gone", 0, x.register(0));
+        due("with its own registers", "0 0 1 9 0 0 0 0", x.registers());
     }
 
-    private static void tokens() {
-        part = "terms, tokens";
-        ReplayDesk x = new ReplayDesk();
-        due("no blanks", 3, program(x, "a=act1,5;b=any a,h;c=patch7;"));
-        due("blanks everywhere", 2, program(x, "  a  =  ( 1 <  2 )  *  - 3 ;  ?  a  [  |  ]  "));
-        due("six digits", 1, program(x, "a=999999;"));
-        due("seven digits", 2, faultOf(x, "a=0000001;"));
-        due("a blank parts numbers", 4, faultOf(x, "a=1 2;"));
-        due("a blank parts names", 4, faultOf(x, "a=a ct 1,2;"));
-        due("a blank parts a word", 2, faultOf(x, "a=ti mer 1;"));
-        due("register h", 1, program(x, "h=h;"));
-        due("i is no register", 2, faultOf(x, "h=i;"));
-        due("names are whole", 2, faultOf(x, "a=nowa;"));
-        due("capitals", 0, faultOf(x, "A=1;"));
-        due("a word is no factor", 4, faultOf(x, "a=1+now;"));
-        due("stop is no value", 2, faultOf(x, "a=stop 1;"));
-        due("other signs", 3, faultOf(x, "a=1/2;"));
-        due("other signs ahead", 2, faultOf(x, "a=>1;"));
-        due("a digit ends a name", 3, faultOf(x, "a=h1;"));
-        due("a name ends a number", 3, faultOf(x, "a=1h;"));
-    }
-
-    private static void faults() {
-        part = "4 fault";
-        String[] texts = {"a", "a ", "a=", "a=1", ";", "=", "1", "]", "|", "a=1;]", "a=1;|", "?", "?1", "?1[", "?1[]", "?1[|", "?1[||]",
-            "?1[|]]", "?1[|];", "?[|]", "@", "@1", "@1[", "@1[|]", "@1[];", "@[]", "stop", "stop ;", "stop 1", "stop a=1;", "wait a;",
-            "act 1,2;", "a=act", "a=act 1", "a=act 1,", "a=act a,1;", "a=act 1 1;", "a=act 1,1 1;", "a=act 1+1,1;", "a=timer",
-            "a=timer;", "a=wait;", "a=wait 1;", "a=wait a+1;", "a=any a;", "a=any a,;", "a=any a,1;", "a=any 1,a;", "a=any a,b,c;",
-            "a=ended;", "a=ended 1;", "a=sig 1;", "a=sig", "a=now 1;", "a=now", "a=patch;", "a=patch a;", "a=patch 1+1;", "a=1<2<3;",
-            "a=(1<2)<3;", "a=1+;", "a=*1;", "a=+1;", "a=1*;", "a=1**2;", "a=1--2;", "a=1-;", "a=();", "a=(1;", "a=1);", "a=((1);",
-            "a=1,2;", "a==1;", "a=b=1;", "a=1 # ; $", "a=1;; #"};
-        int[] places = {1, 2, 2, 3, 0, 0, 0, 0, 0, 4, 4, 1, 2, 3, 3, 4, 4,
-            5, 5, 1, 1, 2, 3, 3, 4, 1, 4, 5, 6, 6, 0,
-            0, 5, 7, 8, 6, 8, 10, 7, 7,
-            7, 6, 7, 8, 7, 8, 8, 6, 9,
-            7, 8, 6, 5, 6, 5, 7, 8, 9, 5,
-            NONE, 4, 2, 2, 4, 4, NONE, 4, 3, 4, 3, 6,
-            3, 2, 3, 4, 4};
-        due("as many places as texts", texts.length, places.length);
-        for (int i = 0; i < texts.length && i < places.length; i++) {
-            due("fault of " + texts[i], places[i], faultOf(new ReplayDesk(), texts[i]));
+    private static void programWithAFault() {
+        sentence("IllegalArgumentException: it has a FAULT (all stays as it is).");
+        Supplier<Desk> made = () -> Desk.decided("a=act 1,1;b=wait a;c=sig;stop b+c;");
+        Consumer<Desk> after = x -> {
+            x.happen(5, 1, 7);
+            x.happen(8, 0, 8);
+            x.decide(1);
+        };
+        for (String text : new String[] {"a", "#", "stop 9;;", "a=act 2,2;@1[", "a=timer 1;".repeat(39) + "a=1"}) {
+            leavesNoTrace("a fault: " + text, made, x -> {
+                x.write(text);
+                due(text, THROWS, x.program());
+            }, after);
         }
+        Desk x = new Desk();
+        due("a fault ahead of any program", 1, x.faultOf("a"));
+        due("there is none still", "1 at -1", x.refusal());
     }
 
-    private static void faultsOfDepth() {
-        part = "4 fault, ten others";
-        ReplayDesk x = new ReplayDesk();
-        due("ten (", NONE, faultOf(x, "a=" + "(".repeat(10) + "1" + ")".repeat(10) + ";"));
-        due("eleven (", 12, faultOf(x, "a=" + "(".repeat(11) + "1" + ")".repeat(11) + ";"));
-        due("ten -", NONE, faultOf(x, "a=" + "-".repeat(10) + "1;"));
-        due("eleven -", 12, faultOf(x, "a=" + "-".repeat(11) + "1;"));
-        due("mixed", 12, faultOf(x, "a=-(-(-(-(-(-1)))));"));
-        due("ten @", NONE, faultOf(x, "@1[".repeat(10) + "]".repeat(10)));
-        due("eleven @", 30, faultOf(x, "@1[".repeat(11) + "]".repeat(11)));
-        due("ten ?", NONE, faultOf(x, "?1[".repeat(10) + "|]".repeat(10)));
-        due("eleven ?", 30, faultOf(x, "?1[".repeat(11) + "|]".repeat(11)));
-        due("ten ? in the second blocks", NONE, faultOf(x, "?1[|".repeat(10) + "]".repeat(10)));
-        due("eleven ? in the second blocks", 40, faultOf(x, "?1[|".repeat(11) + "]".repeat(11)));
-        due("( within ten @", 32, faultOf(x, "@1[".repeat(10) + "a=(1);" + "]".repeat(10)));
-        due("- within ten @", 37, faultOf(x, "@1[".repeat(10) + "stop 1*-1;" + "]".repeat(10)));
-        due("a - between terms is not within", NONE, faultOf(x, "@1[".repeat(10) + "a=1-1-1;" + "]".repeat(10)));
-        due("what stands in its X is within ?", 10, faultOf(x, "?" + "-".repeat(10) + "1[|]"));
-        due("nine in its X", NONE, faultOf(x, "?" + "-".repeat(9) + "1[|]"));
-        due("one behind another is not within", NONE, faultOf(x, "a=(1)+(1)+(1)+(1)+(1)+(1)+(1)+(1)+(1)+(1)+(1)+(-1);"));
-        due("blocks behind another are not within", NONE, faultOf(x, "@0[]".repeat(12)));
-    }
-
-    private static void everyRoomIsEnough() {
-        part = "3 program, 400 characters";
-        ReplayDesk x = new ReplayDesk();
-        due("100 loops", 100, program(x, "@0[]".repeat(100)));
-        due("100 loops end", 1, x.decide(1));
-        due("100 loops' steps", 100, x.total(4));
-        x = new ReplayDesk();
-        due("80 choices", 80, program(x, "?1[|]".repeat(80)));
-        due("80 choices end", 1, x.decide(1));
-        x = new ReplayDesk();
-        due("a long sum", 1, program(x, "a=1" + "+1".repeat(198) + ";"));
-        x.decide(1);
-        due("the long sum's value", 199, x.register(0));
-        x = new ReplayDesk();
-        due("all half done", 1, program(x, "a=" + "0<0+1*(".repeat(10) + "0<0+1*1" + ")".repeat(10) + ";"));
-        x.decide(1);
-        due("the value of all half done", 1, x.register(0));
-        x = new ReplayDesk();
-        program(x, "a=" + "1+2*(".repeat(10) + "1" + ")".repeat(10) + ";");
-        x.decide(1);
-        due("a deep value", 2047, x.register(0));
-    }
-
-    // Terms: X
-
-    private static void arithmetic() {
-        part = "terms, X";
-        due("from the left", 5, value("10-3-2"));
-        due("* ahead of +", 14, value("2+3*4"));
-        due("* ahead of -", -10, value("2-3*4"));
-        due("( )", 20, value("(2+3)*4"));
-        due("- factor", -6, value("-2*3"));
-        due("- -", 2, value("--2"));
-        due("behind a sign", 5, value("3--2"));
-        due("< 1", 1, value("1<2"));
-        due("< 0", 0, value("2<2"));
-        due("< is last", 1, value("1+1<1+2"));
-        due("< of negatives", 1, value("-3<-2"));
-        due("( < )", 3, value("(1<2)+2"));
-        due("wrapping *", 999999 * 999999, value("999999*999999"));
-        due("wrapping +", 999999 * 2147 + 999999 * 2147, value("999999*2147+999999*2147"));
-        due("- of the least", Integer.MIN_VALUE, value("-(32768*65536)"));
-        due("< does not wrap", 1, value("(32768*65536)<1"));
-        due("leading zeros", 10, value("000010"));
-    }
-
-    // Promise 5, and how a program is run
-
-    private static void commands() {
-        part = "5 decide, commands";
-        ReplayDesk x = new ReplayDesk();
-        program(x, "a=3;a=act 999999,a*2;b=timer a-5;c=act 0,0;d=patch 7;stop a+b;");
-        due("how many", 5, x.decide(-77));
-        due("begin", "0 0 -77", event(x, 0));
-        due("act", "1 999999 6", event(x, 1));
-        due("timer", "2 0 -4", event(x, 2));
-        due("second act", "1 0 0", event(x, 3));
-        due("mark", "3 7 0", event(x, 4));
-        due("stop", "4 0 3", event(x, 5));
-        due("events", 6, x.total(0));
-        due("registers", "1 2 3 1 0 0 0 0", registers(x));
-        due("stopped", 1, x.total(3));
-
-        x = new ReplayDesk();
-        program(x, "");
-        due("the end is as stop 0", 1, x.decide(5));
-        due("the end's stop", "4 0 0", event(x, 1));
-        due("the end's steps", 0, x.total(4));
-        due("the end has stopped", 1, x.total(3));
-        refuse(x, 4, NONE);
-
-        x = new ReplayDesk();
-        program(x, "stop 4;a=act 1,1;");
-        due("nothing behind stop", 1, x.decide(1));
-    }
-
-    private static void waiting() {
-        part = "5 decide, wait";
-        ReplayDesk x = new ReplayDesk();
-        program(x, "a=act 1,1;b=act 2,2;c=timer 3;d=wait a;e=wait b;f=wait c;stop d;");
-        due("three commands", 3, x.decide(1));
-        due("it waits", 0, x.decide(2));
-        due("begin only", "0 0 2", event(x, 4));
-        due("done", true, x.happen(5, 1, 123));
-        due("failed", true, x.happen(6, 2, 0));
-        due("it waits for the timer", 0, x.decide(3));
-        due("values so far", "1 2 3 123 -1 0 0 0", registers(x));
-        due("fired", true, x.happen(7, 3, 0));
-        due("on to the stop", 1, x.decide(4));
-        due("all values", "1 2 3 123 -1 0 0 0", registers(x));
-        due("fired is 0", 0, x.register(5));
-
-        x = new ReplayDesk();
-        program(x, "a=act 1,1;b=wait a;c=act 2,b;d=wait c;e=wait a;");
-        x.decide(1);
-        x.happen(5, 1, -2147483648);
-        due("one more", 1, x.decide(2));
-        due("the value goes on", "1 2 -2147483648", event(x, 4));
-        x.happen(5, 4, 6);
-        due("the end", 1, x.decide(3));
-        due("what is over stays over", Integer.MIN_VALUE, x.register(4));
-        due("the second value", 6, x.register(3));
-    }
-
-    private static void waitingForNothing() {
-        part = "5 decide, wait for none";
-        ReplayDesk x = new ReplayDesk();
-        program(x, "a=0;b=wait a;a=-1;c=wait a;a=999999;d=wait a;a=patch 1;e=wait a;g=1000*1000*1000;f=wait g;a=sig;");
-        due("mark alone", 1, x.decide(1));
-        due("all -2", "1 -2 -2 -2 -2 -2 1000000000 0", registers(x));
-
-        x = new ReplayDesk();
-        program(x, "a=2;b=wait a;c=act 1,1;d=act 2,2;e=wait d;");
-        due("an act that comes later is none", 2, x.decide(1));
-        due("b", -2, x.register(1));
-        x.happen(5, 2, 50);
-        x.crash();
-        due("and stays none when it is run again", 1, x.decide(2));
-        due("b again", -2, x.register(1));
-        due("e", 50, x.register(4));
-
-        x = new ReplayDesk();
-        program(x, "a=sig;b=1;c=wait b;d=act 1,1;e=wait d;f=3;g=wait f;");
-        x.happen(8, 0, 9);
-        x.decide(1);
-        due("a place that is the next command's", "9 1 -2 2 0 0 0 0", registers(x));
-        x.happen(6, 2, 0);
-        x.decide(2);
-        due("a FAILED is no act", "9 1 -2 2 -1 3 -2 0", registers(x));
-    }
-
-    private static void any() {
-        part = "5 decide, any";
-        ReplayDesk x = new ReplayDesk();
-        program(x, "a=act 1,1;b=timer 2;c=any a,b;d=any b,a;stop c*10+d;");
-        x.decide(1);
-        x.happen(7, 2, 0);
-        x.decide(2);
-        due("the second, then the first", 2, x.register(2));
-        due("the other way round", 1, x.register(3));
-        x = new ReplayDesk();
-        program(x, "a=act 1,1;b=timer 2;c=any a,b;stop c;");
-        x.decide(1);
-        due("neither", 0, x.decide(2));
-        x.happen(7, 2, 0);
-        x.happen(5, 1, 0);
-        x.decide(3);
-        due("both", 1, x.register(2));
-        x = new ReplayDesk();
-        program(x, "a=act 1,1;c=any a,b;d=any b,a;e=any h,h;");
-        x.decide(1);
-        due("one that tells none is so", "1 0 2 1 1 0 0 0", registers(x));
-    }
-
-    private static void ended() {
-        part = "5 decide, ended";
-        ReplayDesk x = new ReplayDesk();
-        program(x, "a=act 1,1;b=timer 2;c=ended a;d=ended b;e=ended h;f=sig;c=ended a;d=ended b;f=sig;");
-        x.decide(1);
-        due("none is so", "1 2 0 0 1 0 0 0", registers(x));
-        x.happen(6, 1, 0);
-        x.happen(8, 0, 4);
-        x.decide(2);
-        due("the act failed", "1 2 1 0 1 4 0 0", registers(x));
-        x.happen(7, 2, 0);
-        x.crash();
-        x.decide(3);
-        due("run again it was not so yet", "1 2 1 0 1 4 0 0", registers(x));
-    }
-
-    private static void signals() {
-        part = "5 decide, sig";
-        ReplayDesk x = new ReplayDesk();
-        program(x, "a=sig;b=sig;c=sig;stop 0;");
-        x.happen(8, 0, 11);
-        due("a signal ahead of the first begin", 0, x.decide(1));
-        due("taken", 1, x.total(5));
-        due("its value", "11 0 0 0 0 0 0 0", registers(x));
-        due("none more", 0, x.decide(2));
-        due("still one", 1, x.total(5));
-        x.happen(8, 0, -22);
-        x.happen(8, 0, 33);
-        x.happen(8, 0, 44);
-        x.crash();
-        due("in their order", 1, x.decide(3));
-        due("their values", "11 -22 33 0 0 0 0 0", registers(x));
-        due("three", 3, x.total(5));
-    }
-
-    private static void now() {
-        part = "5 decide, now";
-        ReplayDesk x = new ReplayDesk();
-        program(x, "a=now;b=sig;c=now;");
-        x.decide(Integer.MAX_VALUE);
+    private static void latestFault() {
+        sentence("The place of the FAULT of the latest program(); NONE if it was good, or there was none.");
+        Desk x = new Desk();
+        due("there was none", NONE, x.fault());
+        x.write("a=;");
+        due("typing is no program()", NONE, x.fault());
+        x.program();
+        due("a fault", 2, x.fault());
+        x.write("stop 1;");
+        x.decide(0);
         x.happen(8, 0, 1);
         x.crash();
-        x.decide(Integer.MIN_VALUE);
-        due("each begin's time", "2147483647 1 -2147483648 0 0 0 0 0", registers(x));
+        x.clear();
+        due("it stays till the next program()", 2, x.fault());
+        x.program();
+        due("a good one", NONE, x.fault());
+        due("the least place", 0, x.faultOf("]"));
+        due("the most", 400, x.faultOf("a" + " ".repeat(399)));
+        due("another place", 1, x.faultOf("a"));
     }
 
-    private static void blocks() {
-        part = "5 decide, blocks";
-        due("not 0", "1 0", registersOf("?7[a=1;|a=2;b=2;]"));
-        due("negative", "1 0", registersOf("?-1[a=1;|a=2;b=2;]"));
-        due("0", "2 2", registersOf("?0[a=1;|a=2;b=2;]"));
-        due("empty first", "0 5", registersOf("?1[|a=2;]b=5;"));
-        due("empty second", "0 5", registersOf("?0[a=2;|]b=5;"));
-        due("a loop", "5 32", registersOf("b=1;@a<5[a=a+1;b=b*2;]"));
-        due("a loop that is never gone through", "0 3", registersOf("@a[a=9;]b=3;"));
-        due("loops within", "4 20", registersOf("@a<4[a=a+1;c=0;@c<5[c=c+1;b=b+1;]]"));
-        due("choices within", "1 7", registersOf("?1[?0[|?1[a=1;|a=2;]]|a=3;]b=7;"));
-        due("a choice at a loop's end", "6 3", registersOf("@a<6[a=a+1;?a<4[b=b+1;|]]"));
-        due("stop within", "3 0", registersOf("@1[a=a+1;?2<a[stop 1;b=9;|]]"));
+    // Promise 5
 
-        ReplayDesk x = new ReplayDesk();
-        program(x, "@1[a=act 1,b;b=wait a;c=c+1;]");
-        x.decide(1);
-        for (int i = 0; i < 5; i++) {
-            x.happen(5, 1 + 3 * i, 10 + i);
-            due("one act a turn", 1, x.decide(2 + i));
+    private static void decision() {
+        sentence("A DECISION: a BEGIN at a time, and the COMMANDS that the PROGRAM, RUN over the HISTORY with it, adds: how many.");
+        for (int time : new int[] {0, 1, -1, LEAST, MOST}) {
+            Desk x = Desk.with("a=sig;");
+            due("none", 0, x.decide(time));
+            due("the BEGIN alone", "0 0 " + time, x.events());
         }
-        due("waits within a loop", "16 14 5 0 0 0 0 0", registers(x));
+        Desk x = Desk.with("a=act 9,1;b=timer 2;c=patch 3;d=wait a;stop d;");
+        due("three", 3, x.decide(1));
+        x.happen(5, 1, 4);
+        due("one", 1, x.decide(2));
+        due("all events", "0 0 1, 1 9 1, 2 0 2, 3 3 0, 5 1 4, 0 0 2, 4 0 4", x.events());
+        due("the most", 199, Desk.with("@a<199[b=act 1,a;a=a+1;]c=sig;").decide(1));
     }
 
-    private static void steps() {
-        part = "5 decide, steps";
-        due("each statement", 4, stepsOf("a=1;b=1;a=ended b;a=now;"));
-        due("?", 2, stepsOf("?1[a=1;|a=2;b=2;]"));
-        due("@ each time", 7, stepsOf("@a<3[a=a+1;]"));
-        due("stop", 1, stepsOf("stop 1;"));
-        due("the end is none", 0, stepsOf(""));
-        due("patch", 1, stepsOf("a=patch 1;"));
-        due("wait at once", 1, stepsOf("a=wait b;"));
-        due("waits", 2, stepsOf("a=1;b=sig;c=1;"));
-        due("1000", 1000, stepsOf("@a<499[a=a+1;]b=1;"));
-
-        ReplayDesk x = new ReplayDesk();
-        program(x, "@a<499[a=a+1;]b=1;c=1;");
-        refuse(x, 3, NONE);
-        due("nothing has changed", 0, x.total(0));
-        due("nothing is told", "0 0 0 0 0 0 0 0", registers(x));
-        program(x, "@a<499[a=a+1;]b=1;b=sig;");
-        refuse(x, 3, NONE);
-        program(x, "@a<499[a=a+1;]b=1;stop 1;");
-        refuse(x, 3, NONE);
-        program(x, "@a<499[a=a+1;]stop 1;");
-        due("the stop is the 1000th", 1, x.decide(1));
-        due("1000 steps", 1000, x.total(4));
-
-        x = new ReplayDesk();
-        program(x, "a=sig;b=now;@b<5[c=c+1;]d=sig;");
-        x.decide(1);
-        x.happen(8, 0, 7);
-        due("stuck for this time", true, isRefused(x));
-        due("not for another", 0, x.decide(9));
-        due("as if it had not been stuck", "7 9 0 0 0 0 0 0", registers(x));
-        due("nothing taken twice", "3 0 2 0 4 1", totals(x));
-
-        x = new ReplayDesk();
-        program(x, "@1[a=sig;@b<400[b=b+1;]b=0;]");
-        due("steps of each decision", 0, x.decide(1));
-        due("two", 2, x.total(4));
-        for (int i = 0; i < 3; i++) {
-            x.happen(8, 0, i);
-            x.decide(i);
-            due("about 800 each", 805, x.total(4));
+    private static void decisionAddsToTheHistory() {
+        sentence("RUN over the HISTORY with it, adds: how many.");
+        Desk x = Desk.with("a=sig;b=act 1,a;c=sig;");
+        x.happen(8, 0, 3);
+        due("over a history without a decision", 1, x.decide(1));
+        due("behind its events", "8 0 3, 0 0 1, 1 1 3", x.events());
+        x = Desk.with("a=sig;");
+        for (int i = 0; i < 200; i++) {
+            due("decision " + i, 0, x.decide(i));
         }
-        x.happen(8, 0, 1);
-        x.happen(8, 0, 1);
-        refuse(x, 3, NONE);
-        due("the steps before", 805, x.total(4));
-        due("the events of the others stay", 9, x.total(0));
+        due("200 decisions", 200, x.total(2));
+        due("the 201st", "5 at -1", x.refusal());
     }
 
-    private static void stuckInTheOld() {
-        part = "5 decide, stuck in what was run";
-        ReplayDesk x = new ReplayDesk();
-        program(x, "a=sig;b=sig;stop 3;");
-        x.decide(1);
-        program(x, "@1[]");
-        refuse(x, 3, NONE);
-        program(x, "a=sig;@1[]");
-        due("stuck later only", 0, x.decide(2));
-        x.happen(8, 0, 1);
-        refuse(x, 3, NONE);
-        program(x, "a=sig;stop 3;");
-        due("another program goes on", 1, x.decide(3));
-        program(x, "a=sig;@1[]");
-        refuse(x, 3, NONE);
-    }
-
-    private static void patches() {
-        part = "5 decide, patch";
-        ReplayDesk x = new ReplayDesk();
-        program(x, "a=act 1,1;b=wait a;c=act 2,2;d=wait c;");
-        x.decide(1);
-        x.happen(5, 1, 5);
-        // The old history has no mark, so the new program goes the old way there.
-        program(x, "e=patch 9;?e[a=act 7,7;|a=act 1,1;]b=wait a;f=patch 8;?f[c=act 3,3;|c=act 2,2;]d=wait c;");
-        due("mark and act", 2, x.decide(2));
-        due("the old way", 0, x.register(4));
-        due("the new way", 1, x.register(5));
-        due("the mark", "3 8 0", event(x, 4));
-        due("the new act", "1 3 3", event(x, 5));
+    private static void noProgramFirst() {
+        sentence("the first of these: there is no PROGRAM;");
+        Desk x = new Desk();
+        due("a new object", "1 at -1", x.refusal());
+        x.signals(200);
+        due("no room either", "1 at -1", x.refusal());
+        x.clear();
         x.crash();
-        due("run again", 0, x.decide(3));
-        due("the old way again", 0, x.register(4));
-        due("the new way again", 1, x.register(5));
-        program(x, "a=act 1,1;b=wait a;c=act 2,2;d=wait c;");
-        refuse(x, 2, 4);
-        program(x, "a=act 1,1;b=wait a;f=patch 7;?f[c=act 3,3;|c=act 2,2;]d=wait c;");
-        refuse(x, 2, 4);
-        program(x, "a=act 1,1;b=wait a;g=patch 7;f=patch 8;g=g*10+f;c=act 3,3;d=wait c;");
-        due("another number's patch is 0", 0, x.decide(4));
-        due("g", 1, x.register(6));
+        due("an empty history", "1 at -1", x.refusal());
+        x.program("");
+        due("an empty program is one", "good", x.refusal());
+    }
 
-        x = new ReplayDesk();
-        program(x, "a=patch 1;b=patch 1;c=sig;");
-        due("each patch its mark", 2, x.decide(1));
-        program(x, "a=patch 1;b=patch 1;d=patch 1;c=sig;");
-        due("one patch more", 0, x.decide(2));
-        due("is 0", "1 1 0 0 0 0 0 0", registers(x));
-        program(x, "a=patch 1;c=sig;");
-        refuse(x, 2, 2);
+    private static void differsOrStuckBeforeStopped() {
+        sentence("it DIFFERS, or is STUCK, in what was RUN (what comes first); it had stopped;");
+        Desk x = Desk.decided("a=act 1,1;stop 2;");
+        due("it had stopped", "4 at -1", x.refusal());
+        x.program("a=act 1,1;stop 3;");
+        due("it had, but it DIFFERS", "2 at 2", x.refusal());
+        x.program("a=act 1,1;@1[]");
+        due("it had, but it is STUCK", "3 at -1", x.refusal());
+        x.program("b=act 1,1;stop 1+1;");
+        due("another program with the same commands had stopped", "4 at -1", x.refusal());
+        x.crash();
+        due("behind a crash it had, too", "4 at -1", x.refusal());
+        x.happen(5, 1, 1);
+        due("whatever comes", "4 at -1", x.refusal());
+    }
 
-        x = new ReplayDesk();
-        program(x, "a=sig;b=patch 1;c=sig;");
-        x.decide(1);
+    private static void differsOrStuckWhatComesFirst() {
+        sentence("it DIFFERS, or is STUCK, in what was RUN (what comes first)");
+        Desk x = Desk.decided("a=act 1,1;b=sig;c=act 2,2;d=sig;");
         x.happen(8, 0, 1);
-        x.decide(2);
-        // The next decision's mark is not the next command of this one.
-        program(x, "d=patch 1;a=sig;b=patch 1;c=sig;");
-        due("a mark of a later decision", 0, x.decide(3));
-        due("d is 0, b is 1", "1 1 0 0 0 0 0 0", registers(x));
+        x.decide(1);
+        String[] texts = {"a=act 2,1;@1[]", "@1[]a=act 2,1;", "a=act 1,1;@1[]", "a=act 1,1;a=act 1,1;@1[]", "a=act 1,1;b=sig;@1[]",
+            "a=act 1,1;b=sig;c=act 3,3;@1[]", "a=act 1,1;c=timer 1;b=sig;@1[]", "@a<499[a=a+1;]b=1;a=act 2,2;", "@a<499[a=a+1;]a=act 2,2;",
+            "@a<499[a=a+1;]a=act 1,1;", "@a<499[a=a+1;]b=sig;", "@a<499[a=a+1;]b=1;b=sig;", "@a<499[a=a+1;]b=1;"};
+        String[] refusals = {"2 at 1", "3 at -1", "3 at -1", "2 at 2", "3 at -1",
+            "2 at 4", "2 at 2", "3 at -1", "2 at 1",
+            "2 at 2", "2 at 1", "3 at -1", "2 at 1"};
+        for (int i = 0; i < texts.length; i++) {
+            x.program(texts[i]);
+            due(texts[i], refusals[i], x.refusal());
+        }
+        x.program("a=act 1,1;b=sig;c=act 2,2;@b[d=sig;b=d;@d<0[]]");
+        x.happen(8, 0, -1);
+        due("in what was RUN it is not, in this DECISION it is", "3 at -1", x.refusal());
+    }
+
+    private static void stoppedBeforeNoRoom() {
+        sentence("it had stopped; in this DECISION it is STUCK, or the HISTORY would have more than 200 EVENTS");
+        Desk x = Desk.with("@a<198[b=act 1,a;a=a+1;]");
+        due("a stop is the 200th", 199, x.decide(1));
+        due("it had stopped, and there is no room", "4 at -1", x.refusal());
+        x = Desk.with("a=act 1,1;b=sig;");
+        x.decide(1);
+        x.signals(198);
+        x.program("a=act 2,1;b=sig;");
+        due("it DIFFERS, and there is no room", "2 at 1", x.refusal());
+        x.program("a=act 1,1;@1[]");
+        due("it is STUCK in what was RUN, and there is no room", "3 at -1", x.refusal());
+        x.program("a=act 1,1;b=sig;@1[]");
+        due("there is no room for the BEGIN in which it would be STUCK", "5 at -1", x.refusal());
+    }
+
+    private static void stuckOrNoRoomWhatComesFirst() {
+        sentence("in this DECISION it is STUCK, or the HISTORY would have more than 200 EVENTS (what comes first).");
+        String[] texts = {"@1[]", "@1[a=act 1,1;]", "@1[a=patch 1;]", "@a<199[b=act 1,a;a=a+1;]@1[]", "@a<200[b=act 1,a;a=a+1;]@1[]",
+            "@a<199[b=act 1,a;a=a+1;]", "@a<199[b=act 1,a;a=a+1;]stop 1;", "@a<199[b=act 1,a;a=a+1;]c=timer 1;",
+            // The 200th act would be the 201st event: as the 1000th step there is no room for it, the 1001st is not taken.
+            "@a<299[a=a+1;]c=1;@1[b=act 1,1;]", "@a<300[a=a+1;]@1[b=act 1,1;]"};
+        String[] refusals = {"3 at -1", "5 at -1", "5 at -1", "3 at -1", "5 at -1",
+            "5 at -1", "5 at -1", "5 at -1",
+            "5 at -1", "3 at -1"};
+        for (int i = 0; i < texts.length; i++) {
+            due(texts[i], refusals[i], Desk.with(texts[i]).refusal());
+        }
+        Desk x = Desk.with("a=sig;");
+        x.signals(200);
+        due("a BEGIN as the 201st", "5 at -1", x.refusal());
+        x = Desk.with("a=sig;b=b+1;stop 1;");
+        x.signals(199);
+        due("a BEGIN as the 200th, a command as the 201st", "5 at -1", x.refusal());
+        x.program("@1[a=sig;]");
+        due("a BEGIN as the 200th", "good", x.refusal());
+    }
+
+    private static void refusedDecisionLeavesNoTrace() {
+        sentence("IllegalStateException, changing nothing");
+        Consumer<Desk> refused = x -> due("it is refused", THROWS, x.decide(0));
+        leavesNoTrace("no program", () -> {
+            Desk x = new Desk();
+            x.signals(2);
+            x.write("a=si");
+            return x;
+        }, refused, x -> {
+            x.program("g;b=sig;");
+            x.decide(1);
+        });
+        String text = "a=act 1,1;b=wait a;c=timer b;d=wait c;";
+        Consumer<Desk> goOn = x -> {
+            x.program(text);
+            x.happen(5, 1, 6);
+            x.decide(1);
+        };
+        for (String other : new String[] {"a=timer 1;", "a=act 1,1;", "@1[]", "a=act 1,1;h=1;@1[]"}) {
+            leavesNoTrace(other, () -> {
+                Desk x = Desk.decided(text);
+                x.program(other);
+                return x;
+            }, refused, goOn);
+        }
+        leavesNoTrace("stopped", () -> Desk.decided("a=act 1,1;stop a;"), refused, x -> x.happen(6, 1, 0));
+        // For a time of 0 it is stuck behind a command, or finds no room; for another it is good.
+        String[] forTimes = {"a=sig;b=act 1,1;c=patch 1;d=now;@d<1[e=e+1;]f=sig;", "a=sig;d=now;@d<1[e=act 1,e;]f=sig;"};
+        for (String forTime : forTimes) {
+            leavesNoTrace(forTime, () -> {
+                Desk x = Desk.decided(forTime);
+                x.signals(2);
+                return x;
+            }, refused, x -> x.decide(1));
+            Desk x = Desk.decided(forTime);
+            x.happen(8, 0, 1);
+            x.decide(0);
+            due("the act was not added", false, x.happen(5, 3, 0));
+            due("it takes place again", false, x.decide(1) == THROWS);
+        }
     }
 
     // Promises 6 and 7
 
-    private static void differing() {
-        part = "7 differs";
-        ReplayDesk x = new ReplayDesk();
-        program(x, "a=act 1,1;b=timer 2;c=patch 3;d=wait a;e=act 4,4;f=wait e;stop 7;");
-        x.decide(1);
-        x.happen(8, 0, 1);
-        x.happen(5, 1, 5);
-        x.decide(2);
-        due("eight events", 8, x.total(0));
-        String[] texts = {"a=act 2,1;", "a=act 1,2;", "a=timer 1;", "stop 1;", "", "a=sig;", "a=act 1,1;", "a=act 1,1;b=timer 3;",
-            "a=act 1,1;b=timer 2;c=patch 4;d=wait a;", "a=act 1,1;b=timer 2;d=wait a;", "a=act 1,1;b=timer 2;c=patch 3;",
-            "a=act 1,1;b=timer 2;c=patch 3;e=act 4,4;d=wait a;", "a=act 1,1;b=timer 2;c=patch 3;d=wait a;",
-            "a=act 1,1;b=timer 2;c=patch 3;d=wait a;e=act 4,5;f=wait e;", "a=act 1,1;b=timer 2;c=patch 3;d=wait b;e=act 4,4;",
-            "a=act 1,1;b=timer 2;c=patch 3;d=wait a;e=act 4,4;e=act 4,4;f=wait e;",
-            "a=act 1,1;b=timer 2;c=patch 3;d=wait a;e=act 4,4;stop 7;"};
-        int[] places = {1, 1, 1, 1, 1, 1, 2, 2, 3, 3, 4, 4, 7, 7, 7, 8, 8};
-        due("as many places as texts", texts.length, places.length);
-        for (int i = 0; i < texts.length && i < places.length; i++) {
-            program(x, texts[i]);
-            due("refused " + texts[i], true, isRefused(x));
-            due("refused for " + texts[i], 2, x.refused());
-            due("differs " + texts[i], places[i], x.differs());
-        }
-        due("nothing has changed", 8, x.total(0));
-        due("registers as told", "1 2 1 5 7 0 0 0", registers(x));
-        program(x, "h=act 1,1;g=timer 2;f=patch 3;e=wait h;d=act 4,4;c=wait d;stop 7;");
-        due("other registers don't differ", 0, x.decide(3));
-        due("differs is NONE", NONE, x.differs());
-        x.happen(5, 7, 6);
-        due("stop", 1, x.decide(4));
-        program(x, "h=act 1,1;g=timer 2;f=patch 3;e=wait h;d=act 4,4;c=wait d;stop 8;");
-        refuse(x, 2, 11);
-        program(x, "h=act 1,1;g=timer 2;f=patch 3;e=wait h;d=act 4,4;c=wait d;a=sig;");
-        refuse(x, 2, 11);
-        program(x, "h=act 1,1;g=timer 2;f=patch 3;e=wait h;d=act 4,4;c=wait d;stop 3+4;");
-        refuse(x, 4, NONE);
-    }
-
-    private static void differingAndStuck() {
-        part = "5 decide, what comes first";
-        ReplayDesk x = new ReplayDesk();
-        program(x, "a=act 1,1;b=wait a;");
-        x.decide(1);
-        program(x, "a=act 2,1;@1[]");
-        refuse(x, 2, 1);
-        program(x, "@1[]a=act 2,1;");
-        refuse(x, 3, NONE);
-        program(x, "a=act 1,1;@1[]");
-        refuse(x, 3, NONE);
-        program(x, "a=act 1,1;a=act 1,1;@1[]");
-        refuse(x, 2, 2);
-        program(x, "@a<499[a=a+1;]b=1;a=act 2,2;");
-        refuse(x, 3, NONE);
-        program(x, "@a<499[a=a+1;]a=act 2,2;");
-        refuse(x, 2, 1);
-        program(x, "@a<499[a=a+1;]a=act 1,1;");
-        refuse(x, 2, 2);
-        program(x, "@a<499[a=a+1;]b=sig;");
-        refuse(x, 2, 1);
-    }
-
-    private static void noRoom() {
-        part = "5 decide, no room";
-        ReplayDesk x = new ReplayDesk();
-        program(x, "@1[a=act 1,1;]");
-        refuse(x, 5, NONE);
-        due("nothing has changed", 0, x.total(0));
-        program(x, "@a<199[b=act 1,a;a=a+1;]c=sig;");
-        due("199 commands", 199, x.decide(1));
-        due("200 events", 200, x.total(0));
-        due("the last", "1 1 198", event(x, 199));
-        due("no more of the others", false, x.happen(8, 0, 1));
-        due("nor a done", false, x.happen(5, 1, 1));
-        refuse(x, 5, NONE);
-        x.crash();
-        refuse(x, 5, NONE);
-        program(x, "@1[]");
-        refuse(x, 3, NONE);
-        program(x, "a=act 2,2;");
-        refuse(x, 2, 1);
-
-        x = new ReplayDesk();
-        program(x, "@a<198[b=act 1,a;a=a+1;]");
-        due("the end's stop is the last", 199, x.decide(1));
-        refuse(x, 4, NONE);
-        due("stopped ahead of no room", 200, x.total(0));
-
-        x = new ReplayDesk();
-        program(x, "@a<199[b=act 1,a;a=a+1;]");
-        refuse(x, 5, NONE);
-        program(x, "@a<199[b=act 1,a;a=a+1;]stop 1;");
-        refuse(x, 5, NONE);
-        program(x, "@a<199[b=act 1,a;a=a+1;]c=patch 1;");
-        refuse(x, 5, NONE);
-        program(x, "@a<199[b=act 1,a;a=a+1;]@1[]");
-        refuse(x, 3, NONE);
-        program(x, "@a<200[b=act 1,a;a=a+1;]@1[]");
-        refuse(x, 5, NONE);
-
-        x = new ReplayDesk();
-        program(x, "a=sig;");
-        for (int i = 0; i < 200; i++) {
-            x.decide(i);
-        }
-        due("200 decisions", 200, x.total(2));
-        refuse(x, 5, NONE);
+    private static void refused() {
+        sentence("What the latest decide() was refused for: 0 it was not, 1 no PROGRAM, 2 it DIFFERS, 3 STUCK, 4 stopped, 5 no room.");
+        Desk x = new Desk();
+        due("there was none", 0, x.refused());
+        due("no PROGRAM", "1 at -1", x.refusal());
+        x.program("a=act 1,1;b=wait a;");
+        due("it stays for a new program", 1, x.refused());
+        x.decide(0);
+        due("it was not", 0, x.refused());
+        x.program("a=act 2,1;");
+        due("it DIFFERS", "2 at 1", x.refusal());
+        x.program("@1[]");
+        due("STUCK", "3 at -1", x.refusal());
         x.clear();
-        due("room again", 0, x.decide(1));
+        due("it stays behind clear()", 3, x.refused());
+        due("STUCK in the new one", "3 at -1", x.refusal());
+        x.program("");
+        x.decide(0);
+        due("stopped", "4 at -1", x.refusal());
+        x.crash();
+        due("it stays behind crash()", 4, x.refused());
+        x.clear();
+        x.program("@1[a=act 1,1;]");
+        due("no room", "5 at -1", x.refusal());
+        x.program("");
+        due("good again", "good", x.refusal());
+        due("it was not, again", 0, x.refused());
     }
 
-    private static void refusals() {
-        part = "6 refused";
-        ReplayDesk x = new ReplayDesk();
-        refuse(x, 1, NONE);
-        faultOf(x, "a");
-        refuse(x, 1, NONE);
-        program(x, "a=act 1,1;b=wait a;");
-        due("a new program changes nothing in it", 1, x.refused());
-        x.decide(1);
-        due("good", 0, x.refused());
-        program(x, "a=act 2,1;");
-        refuse(x, 2, 1);
+    private static void differs() {
+        sentence("The EVENT where it DIFFERS, of the latest decide() (NONE if it was not refused for that).");
+        Desk x = new Desk();
+        due("there was none", NONE, x.differs());
+        due("no PROGRAM", "1 at -1", x.refusal());
+        String text = "a=act 1,1;b=timer 2;c=wait a;";
+        String another = "a=act 1,1;b=timer 3;c=wait a;";
+        x.program(text);
+        x.decide(0);
+        x.program(another);
+        due("it DIFFERS", "2 at 2", x.refusal());
+        x.program("a=timer 1;");
+        due("it stays till the next decide()", 2, x.differs());
+        due("elsewhere", "2 at 1", x.refusal());
         x.crash();
-        due("a crash changes nothing in it", 2, x.refused());
-        due("nor in differs", 1, x.differs());
         x.happen(5, 1, 1);
         x.clear();
-        due("clear changes nothing in it", 2, x.refused());
-        due("nor in differs there", 1, x.differs());
-        due("good again", 2, x.decide(1));
-        due("refused 0", 0, x.refused());
-        due("differs NONE", NONE, x.differs());
-        refuse(x, 4, NONE);
-        due("the registers stay", 1, x.register(0));
+        due("it stays behind the other calls", 1, x.differs());
+        x.program(text);
+        x.decide(0);
+        due("it was not refused", NONE, x.differs());
+        String[] texts = {"@1[]", "a=act 1,1;b=timer 2;@1[]"};
+        for (String stuck : texts) {
+            x.program(another);
+            due("it DIFFERS again", "2 at 2", x.refusal());
+            x.program(stuck);
+            due("it was refused for STUCK", "3 at -1", x.refusal());
+        }
     }
 
     // Promise 8
 
     private static void happenings() {
-        part = "8 happen";
-        ReplayDesk x = new ReplayDesk();
-        due("a signal without a program", true, x.happen(8, 0, 5));
-        due("a ref of a signal", false, x.happen(8, 1, 5));
-        due("a done of nothing", false, x.happen(5, 0, 5));
-        program(x, "a=act 1,1;b=timer 1;c=act 2,2;d=patch 1;e=wait c;");
-        x.decide(1);
-        for (int kind = -1; kind <= 9; kind++) {
-            if (kind < 5 || kind > 8) {
-                due("kind " + kind, false, x.happen(kind, 2, 0));
-                due("kind " + kind + ", ref 0", false, x.happen(kind, 0, 0));
+        sentence("An EVENT of the others: kind 5 to 8, with its REF and VALUE (of 6 and 7 VALUE 0, of 8 REF 0): true;");
+        Desk x = new Desk();
+        due("a SIGNAL without a program", true, x.happen(8, 0, MOST));
+        x.program("a=act 1,1;b=timer 1;c=act 1,1;d=act 1,1;e=sig;f=sig;");
+        x.decide(0);
+        due("DONE", true, x.happen(5, 2, LEAST));
+        due("FAILED", true, x.happen(6, 4, 0));
+        due("FIRED", true, x.happen(7, 3, 0));
+        due("DONE with 0", true, x.happen(5, 5, 0));
+        due("SIGNAL", true, x.happen(8, 0, LEAST));
+        due("events", "8 0 2147483647, 0 0 0, 1 1 1, 2 0 1, 1 1 1, 1 1 1, 5 2 -2147483648, 6 4 0, 7 3 0, 5 5 0, 8 0 -2147483648", x.events());
+        x.decide(0);
+        due("behind the stop", true, x.happen(8, 0, 1));
+    }
+
+    private static void refusedKinds() {
+        sentence("false, changing nothing, for another kind");
+        Desk x = Desk.decided("a=act 1,1;b=timer 1;c=wait a;");
+        for (int kind : new int[] {0, 1, 2, 3, 4, 9, 10, -1, -8, 256 + 8, LEAST, MOST}) {
+            for (int ref = 0; ref <= 2; ref++) {
+                due("kind " + kind + " of " + ref, false, x.happen(kind, ref, 0));
             }
         }
-        due("least kind", false, x.happen(Integer.MIN_VALUE, 2, 0));
-        int[] noActs = {-1, 0, 1, 3, 5, 6, 200, Integer.MIN_VALUE, Integer.MAX_VALUE};
-        for (int ref : noActs) {
-            due("done of " + ref, false, x.happen(5, ref, 0));
-            due("failed of " + ref, false, x.happen(6, ref, 0));
-            due("fired of " + ref, ref == 3, x.happen(7, ref, 0));
-        }
-        due("fired of an act", false, x.happen(7, 2, 0));
-        due("fired again", false, x.happen(7, 3, 0));
-        due("failed with a value", false, x.happen(6, 2, 1));
-        due("failed", true, x.happen(6, 2, 0));
-        due("done behind failed", false, x.happen(5, 2, 0));
-        due("failed again", false, x.happen(6, 2, 0));
-        due("done", true, x.happen(5, 4, Integer.MIN_VALUE));
-        due("failed behind done", false, x.happen(6, 4, 0));
-        due("a stop is no act", 1, x.decide(2));
-        due("done of a stop", false, x.happen(5, 10, 0));
-        due("a signal behind the stop", true, x.happen(8, 0, Integer.MAX_VALUE));
-        due("events", "8 0 5|0 0 1|1 1 1|2 0 1|1 2 2|3 1 0|7 3 0|6 2 0|5 4 -2147483648|0 0 2|4 0 0|8 0 2147483647|", allEvents(x));
-
-        x = new ReplayDesk();
-        program(x, "a=timer 1;b=wait a;");
-        x.decide(1);
-        due("fired with a value", false, x.happen(7, 1, 1));
-        due("fired", true, x.happen(7, 1, 0));
-        for (int i = 3; i < 200; i++) {
-            due("signal " + i, true, x.happen(8, 0, i));
-        }
-        due("the 201st", false, x.happen(8, 0, 0));
-        due("200", 200, x.total(0));
+        due("nothing has changed", "0 0 0, 1 1 1, 2 0 1", x.events());
     }
 
-    // Promise 9
+    private static void refusedRefs() {
+        sentence("false, changing nothing, for another kind, REF or VALUE");
+        Desk x = Desk.decided("a=act 1,1;b=timer 1;c=patch 1;c=act 1,1;d=wait c;");
+        x.happen(8, 0, 1);
+        x.happen(5, 4, 1);
+        x.decide(0);
+        // The events: BEGIN, ACT, TIMER, MARK, ACT that is OVER, SIGNAL, DONE, BEGIN, STOP, and none more.
+        for (int ref : new int[] {-1, 0, 1, 2, 3, 4, 5, 6, 7, 8, 9, 199, 200, 256 + 1, LEAST, MOST}) {
+            if (ref != 1) {
+                due("DONE of " + ref, false, x.happen(5, ref, 0));
+                due("FAILED of " + ref, false, x.happen(6, ref, 0));
+            }
+            if (ref != 2) {
+                due("FIRED of " + ref, false, x.happen(7, ref, 0));
+            }
+            if (ref != 0) {
+                due("SIGNAL with REF " + ref, false, x.happen(8, ref, 0));
+            }
+        }
+        due("nothing has changed", 9, x.total(0));
+        due("the ACT is open still", true, x.happen(6, 1, 0));
+        due("the TIMER, too", true, x.happen(7, 2, 0));
+    }
 
-    private static void crashes() {
-        part = "9 crash";
-        ReplayDesk x = new ReplayDesk();
+    private static void refusedValues() {
+        sentence("(of 6 and 7 VALUE 0, of 8 REF 0): true; false, changing nothing, for another kind, REF or VALUE");
+        Desk x = Desk.decided("a=act 1,1;b=timer 1;c=wait a;");
+        for (int value : new int[] {1, -1, LEAST, MOST}) {
+            due("FAILED with " + value, false, x.happen(6, 1, value));
+            due("FIRED with " + value, false, x.happen(7, 2, value));
+        }
+        due("FAILED with 0", true, x.happen(6, 1, 0));
+        due("FIRED with 0", true, x.happen(7, 2, 0));
+    }
+
+    private static void refsThatAreOver() {
+        sentence("a REF that is OVER");
+        Desk x = Desk.decided("a=act 1,1;b=act 1,1;c=timer 1;d=wait a;");
+        x.happen(5, 1, 5);
+        x.happen(6, 2, 0);
+        x.happen(7, 3, 0);
+        due("DONE of what is DONE", false, x.happen(5, 1, 5));
+        due("DONE of what is DONE, with another VALUE", false, x.happen(5, 1, 6));
+        due("FAILED of what is DONE", false, x.happen(6, 1, 0));
+        due("DONE of what FAILED", false, x.happen(5, 2, 0));
+        due("FAILED of what FAILED", false, x.happen(6, 2, 0));
+        due("FIRED of what FIRED", false, x.happen(7, 3, 0));
         x.crash();
-        program(x, "a=act 1,1;b=wait a;c=sig;d=sig;");
-        x.decide(1);
+        due("behind a crash", false, x.happen(5, 1, 5));
+        x.decide(0);
+        due("what came first counts", 5, x.register(3));
+        x.clear();
+        x.decide(0);
+        due("in a new history it is open", true, x.happen(5, 1, 8));
+    }
+
+    private static void noRoomForOthers() {
+        sentence("or if there are 200 EVENTS.");
+        Desk x = Desk.decided("a=act 1,1;b=timer 1;c=act 1,1;d=wait a;");
+        x.signals(195);
+        due("the 200th", true, x.happen(5, 1, 1));
+        due("a DONE as the 201st", false, x.happen(5, 3, 1));
+        due("a FAILED as the 201st", false, x.happen(6, 3, 0));
+        due("a FIRED as the 201st", false, x.happen(7, 2, 0));
+        due("a SIGNAL as the 201st", false, x.happen(8, 0, 0));
+        due("200", 200, x.total(0));
+        x.clear();
+        due("room again", true, x.happen(8, 0, 0));
+    }
+
+    private static void refusedHappeningLeavesNoTrace() {
+        sentence("false, changing nothing, for another kind, REF or VALUE, a REF that is OVER");
+        int[][] calls = {{4, 0, 0}, {9, 0, 0}, {5, 0, 7}, {5, 2, 7}, {5, 3, 7}, {6, 1, 7}, {7, 2, 7}, {8, 1, 7}, {5, -1, 7}, {5, 99, 7}};
+        for (int[] call : calls) {
+            leavesNoTrace("happen " + call[0] + " " + call[1] + " " + call[2], () -> {
+                Desk x = Desk.decided("a=act 1,1;b=timer 1;c=act 1,1;d=wait c;e=any a,b;f=sig;");
+                x.happen(5, 3, 4);
+                return x;
+            }, x -> due("it is refused", false, x.happen(call[0], call[1], call[2])), x -> {
+                x.decide(1);
+                x.happen(5, 1, 5);
+                x.decide(2);
+            });
+        }
+    }
+
+    // Promises 9 and 10
+
+    private static void crash() {
+        sentence("All is forgotten but PROGRAM, HISTORY and TAPE: what is RUN next is RUN from the beginning.");
+        Desk x = Desk.with("a=act 1,1;b=wait a;@1[c=sig;d=d+c;]");
+        x.crash();
+        due("ahead of the first decision", 1, x.decide(1));
+        x.crash();
         x.happen(5, 1, 8);
         x.happen(8, 0, 9);
-        x.decide(2);
-        type(x, "stop 1");
-        String seen = allEvents(x) + registers(x) + totals(x);
-        x.crash();
-        due("nothing that is seen changes", seen, allEvents(x) + registers(x) + totals(x));
+        due("behind the first", 0, x.decide(2));
         x.happen(8, 0, 10);
-        due("it goes on", 1, x.decide(3));
-        due("registers", "1 8 9 10 0 0 0 0", registers(x));
-        due("the tape was not forgotten", 1, program(x, ";"));
-        x = new ReplayDesk();
-        faultOf(x, "a");
+        x.write("stop 1");
         x.crash();
-        due("the fault is seen still", 1, x.fault());
+        x.crash();
+        due("twice", 0, x.decide(3));
+        due("nothing counts twice", "1 8 10 19 0 0 0 0", x.registers());
+        due("signals", 2, x.total(5));
+        due("the TAPE is there", 1, x.program(";"));
+        x.crash();
+        due("the new PROGRAM is there", "2 at 1", x.refusal());
     }
 
-    // Promise 10
+    private static void nothingSeenChanges() {
+        sentence("(Nothing that is seen changes.)");
+        Desk x = new Desk();
+        sameBehindCrash("a new object", x);
+        x.faultOf("a");
+        x.refusal();
+        sameBehindCrash("a fault, no PROGRAM", x);
+        x.program("a=act 1,1;b=sig;stop b;");
+        x.decide(1);
+        x.happen(8, 0, 4);
+        sameBehindCrash("it waits", x);
+        x.program("a=timer 1;");
+        x.refusal();
+        sameBehindCrash("it DIFFERS", x);
+        x.program("a=act 1,1;b=sig;@1[]");
+        x.refusal();
+        sameBehindCrash("it is STUCK", x);
+        x.program("a=act 1,1;b=sig;stop b;");
+        x.decide(2);
+        sameBehindCrash("it has stopped", x);
+        x.clear();
+        sameBehindCrash("an empty history", x);
+    }
 
-    private static void clearing() {
-        part = "10 clear";
-        ReplayDesk x = new ReplayDesk();
-        program(x, "a=act 1,1;b=sig;c=wait a;");
+    private static void sameBehindCrash(String when, Desk x) {
+        String seen = x.seen() + "; " + x.fault() + " " + x.refused() + " " + x.differs();
+        x.crash();
+        due(when, seen, x.seen() + "; " + x.fault() + " " + x.refused() + " " + x.differs());
+    }
+
+    private static void clear() {
+        sentence("The HISTORY has no EVENTS any more (the PROGRAM stays).");
+        Desk x = new Desk();
+        x.clear();
+        due("a new object", "; 0 0 0 0 0 0 0 0; 0 0 0 0 0 0", x.seen());
+        x.program("a=act 1,1;b=sig;c=wait a;");
         x.happen(8, 0, 5);
         x.decide(1);
         x.happen(5, 2, 6);
         x.decide(2);
-        type(x, "stop ");
+        due("it has stopped", 1, x.total(3));
+        x.write("stop ");
         x.clear();
-        due("totals", "0 0 0 0 0 0", totals(x));
-        due("registers", "0 0 0 0 0 0 0 0", registers(x));
-        due("no event", true, hasNoEvent(x, 0, 0));
+        x.clear();
+        due("nothing is left", "; 0 0 0 0 0 0 0 0; 0 0 0 0 0 0", x.seen());
+        due("no event", THROWS, x.event(0, 0));
         due("the old act is gone", false, x.happen(5, 2, 1));
         due("the program stays", 1, x.decide(3));
-        due("from its beginning", "0 0 3|1 1 1|", allEvents(x));
-        due("the old signal is gone", 0, x.total(5));
+        due("from its beginning, without the old signal", "0 0 3, 1 1 1; 1 0 0 0 0 0 0 0; 2 1 1 0 2 0", x.seen());
         x.happen(8, 0, 7);
         due("it waits for the new act", 0, x.decide(4));
         due("the new signal", 7, x.register(1));
-        due("the act is not over", true, x.happen(5, 1, 8));
-        due("then it is", 1, x.decide(5));
-        due("the tape stays", 1, program(x, "1;"));
+        due("the new act", true, x.happen(5, 1, 8));
+        due("the tape stays", 1, x.program("1;"));
         x.clear();
+        x.signals(200);
         x.clear();
-        due("again", 1, x.decide(1));
-        due("stop", "4 0 1", event(x, 1));
+        due("behind 200 events", "good", x.refusal());
+        due("the new program", "0 0 0, 4 0 1", x.events());
     }
 
-    // Promise 11
+    // Promises 11 to 13
 
     private static void events() {
-        part = "11 event";
-        ReplayDesk x = new ReplayDesk();
-        program(x, "a=act 12,34;b=wait a;");
+        sentence("Of EVENT i, what 0: its KIND, 1: its REF, 2: its VALUE.");
+        Desk x = Desk.with("a=act 12,34;b=wait a;");
         x.decide(56);
         due("kind", 1, x.event(1, 0));
         due("ref", 12, x.event(1, 1));
         due("value", 34, x.event(1, 2));
-        int[] places = {-1, 2, 199, 200, Integer.MIN_VALUE, Integer.MAX_VALUE};
-        for (int i : places) {
-            due("no event " + i, true, hasNoEvent(x, i, 0));
-        }
-        due("what -1", true, hasNoEvent(x, 0, -1));
-        due("what 3", true, hasNoEvent(x, 0, 3));
-        due("least what", true, hasNoEvent(x, 0, Integer.MIN_VALUE));
+        due("the first", "0 0 56", x.event(0));
+        x.signals(198);
+        due("the last of 200", "8 0 197", x.event(199));
     }
 
-    // Promise 12
+    private static void noSuchEvents() {
+        sentence("NoSuchElementException: there is none such, or another what.");
+        Desk x = new Desk();
+        due("a new object", THROWS, x.event(0, 0));
+        x.program("a=act 12,34;b=wait a;");
+        x.decide(56);
+        for (int i : new int[] {-1, 2, 3, 199, 200, LEAST, MOST}) {
+            for (int what = 0; what <= 2; what++) {
+                due("event " + i + ", what " + what, THROWS, x.event(i, what));
+            }
+        }
+        for (int what : new int[] {-1, 3, 4, LEAST, MOST}) {
+            due("event 0, what " + what, THROWS, x.event(0, what));
+            due("event 1, what " + what, THROWS, x.event(1, what));
+            due("event 2, what " + what, THROWS, x.event(2, what));
+        }
+        x.clear();
+        due("an event that was", THROWS, x.event(0, 0));
+        x.signals(200);
+        due("event 199", 8, x.event(199, 0));
+        due("event 200", THROWS, x.event(200, 0));
+    }
 
     private static void registers() {
-        part = "12 register";
-        ReplayDesk x = new ReplayDesk();
-        program(x, "a=1;b=2;c=3;d=4;e=5;f=6;g=7;h=8;a=sig;@1[a=8;]");
+        sentence("REGISTER r (0 a .. 7 h) as it is behind the latest good decide() of this HISTORY (0 without one).");
+        Desk x = Desk.with("a=1;b=2;c=3;d=4;e=5;f=6;g=7;h=8;a=sig;h=0;@a<5[a=0;]b=sig;");
+        due("without one", "0 0 0 0 0 0 0 0", x.registers());
         x.decide(1);
-        due("each", "1 2 3 4 5 6 7 8", registers(x));
-        int[] places = {-1, 8, Integer.MIN_VALUE, Integer.MAX_VALUE};
-        for (int r : places) {
-            due("no register " + r, true, hasNoRegister(x, r));
-        }
-        x.happen(8, 0, 99);
-        refuse(x, 3, NONE);
-        due("behind a refusal", "1 2 3 4 5 6 7 8", registers(x));
+        due("each", "1 2 3 4 5 6 7 8", x.registers());
+        x.happen(8, 0, 3);
+        due("behind a happening", "1 2 3 4 5 6 7 8", x.registers());
+        due("stuck", "3 at -1", x.refusal());
+        due("behind a refused one", "1 2 3 4 5 6 7 8", x.registers());
+        x.program("a=sig;b=sig;");
+        due("behind a new program", "1 2 3 4 5 6 7 8", x.registers());
+        x.decide(2);
+        due("behind the next good one", "3 0 0 0 0 0 0 0", x.registers());
+        x.clear();
+        due("of a new history", "0 0 0 0 0 0 0 0", x.registers());
+        x.program("a=1;@1[]");
+        due("stuck in the new one", "3 at -1", x.refusal());
+        due("without a good one", "0 0 0 0 0 0 0 0", x.registers());
+        due("the least", LEAST, Desk.decided("h=32768*65536;").register(7));
     }
 
-    // Promise 13
+    private static void noSuchRegisters() {
+        sentence("NoSuchElementException: there is none such.");
+        Desk x = Desk.decided("a=1;h=8;");
+        for (int r : new int[] {-1, 8, 9, 97, LEAST, MOST}) {
+            due("register " + r, THROWS, x.register(r));
+            due("register " + r + " of a new object", THROWS, new Desk().register(r));
+        }
+        due("the first", 1, x.register(0));
+        due("the last", 8, x.register(7));
+    }
 
-    private static void totals() {
-        part = "13 total";
-        ReplayDesk x = new ReplayDesk();
-        program(x, "a=sig;b=act 1,1;c=timer 1;d=patch 1;e=sig;");
-        x.happen(8, 0, 1);
-        x.happen(8, 0, 2);
-        due("events ahead of a decision", "2 0 0 0 0 0", totals(x));
+    private static void totalsOfTheHistory() {
+        sentence("What 0: EVENTS, 1: COMMANDS, 2: DECISIONS");
+        Desk x = Desk.with("a=sig;b=act 1,1;c=timer 1;d=patch 1;e=sig;stop 1;");
+        x.signals(2);
+        due("ahead of a decision", "2 0 0 0 0 0", x.totals());
         x.decide(1);
-        due("all", "7 4 1 1 5 2", totals(x));
-        x.happen(8, 0, 3);
-        due("behind the decision", "8 4 1 1 5 2", totals(x));
-        program(x, "a=1;");
-        due("with a new program", "8 4 1 1 5 2", totals(x));
-        refuse(x, 2, 3);
-        due("behind a refusal", "8 4 1 1 5 2", totals(x));
-        int[] others = {-1, 6, Integer.MIN_VALUE, Integer.MAX_VALUE};
-        for (int what : others) {
+        due("each command counts", "7 4 1 1 6 2", x.totals());
+        x.happen(5, 3, 1);
+        x.happen(7, 4, 0);
+        due("others are no commands", "9 4 1 1 6 2", x.totals());
+        x = Desk.with("a=sig;");
+        x.decide(1);
+        x.decide(1);
+        due("decisions without commands", "2 0 2 0 1 0", x.totals());
+    }
+
+    private static void totalOfStops() {
+        sentence("3: 1 if it has stopped, else 0");
+        Desk x = Desk.with("a=sig;");
+        due("without a decision", 0, x.total(3));
+        x.decide(1);
+        due("it waits", 0, x.total(3));
+        x.happen(8, 0, 1);
+        due("it could go on", 0, x.total(3));
+        x.decide(2);
+        due("it has stopped at its end", 1, x.total(3));
+        due("by a stop", 1, Desk.decided("stop 0;").total(3));
+    }
+
+    private static void totalOfSteps() {
+        sentence("4: STEPS of the latest good decide()'s DECISION (0 without one)");
+        Desk x = Desk.with("a=1;b=1;c=sig;@d<498[d=d+1;]e=1;g=sig;");
+        due("without one", 0, x.total(4));
+        x.decide(1);
+        due("the first one's", 3, x.total(4));
+        x.happen(8, 0, 1);
+        x.crash();
+        x.decide(2);
+        due("the latest one's alone, and the most", 1000, x.total(4));
+        x.decide(3);
+        due("the least of one that waits", 1, x.total(4));
+        due("the least of all", 0, Desk.decided("").total(4));
+    }
+
+    private static void totalOfSignals() {
+        sentence("5: SIGNALS that it has taken by then.");
+        Desk x = Desk.with("@1[a=sig;b=sig;]");
+        x.happen(8, 0, 1);
+        due("without a decision", 0, x.total(5));
+        x.decide(1);
+        due("one", 1, x.total(5));
+        x.happen(8, 0, 1);
+        due("one more is not taken yet", 1, x.total(5));
+        x.decide(2);
+        due("all of both decisions", 2, x.total(5));
+        x.signals(190);
+        x.decide(3);
+        due("many", 192, x.total(5));
+        x = Desk.with("a=sig;");
+        x.signals(5);
+        x.decide(1);
+        due("only those it wanted", 1, x.total(5));
+    }
+
+    private static void totalsAsTold() {
+        sentence("(3 to 5 of this HISTORY, as told by the latest good decide().)");
+        Desk x = Desk.with("a=sig;b=1;");
+        x.happen(8, 0, 1);
+        x.happen(8, 0, 1);
+        due("without one", "2 0 0 0 0 0", x.totals());
+        x.decide(1);
+        due("it has stopped, in two steps, with one signal", "4 1 1 1 2 1", x.totals());
+        x.happen(8, 0, 1);
+        due("behind a happening", "5 1 1 1 2 1", x.totals());
+        due("refused", "4 at -1", x.refusal());
+        due("behind a refused one", "5 1 1 1 2 1", x.totals());
+        x.program("a=sig;b=sig;c=sig;d=sig;");
+        due("behind a new program", "5 1 1 1 2 1", x.totals());
+        due("it DIFFERS", "2 at 3", x.refusal());
+        due("behind one that DIFFERS", "5 1 1 1 2 1", x.totals());
+        x.clear();
+        due("of a new history", "0 0 0 0 0 0", x.totals());
+        x.decide(1);
+        due("it waits", "1 0 1 0 1 0", x.totals());
+        x.signals(3);
+        x.decide(2);
+        due("it goes on", "5 0 2 0 4 3", x.totals());
+    }
+
+    private static void otherTotals() {
+        sentence("NONE for another what.");
+        Desk x = Desk.decided("a=1;");
+        for (int what : new int[] {-1, 6, 7, LEAST, MOST}) {
             due("total " + what, NONE, x.total(what));
+            due("total " + what + " of a new object", NONE, new Desk().total(what));
         }
     }
 
     // Helpers
 
-    private static void type(ReplayDesk x, String text) {
-        for (int from = 0; from < text.length(); from += 8) {
-            int to = Math.min(from + 8, text.length());
-            long word = 0;
-            for (int i = from; i < to; i++) {
-                word = word << 8 | text.charAt(i);
-            }
-            due("type " + text, true, x.type(word, to - from));
-        }
-    }
-
-    private static int program(ReplayDesk x, String text) {
-        type(x, text);
-        try {
-            return x.program();
-        } catch (IllegalArgumentException e) {
-            due("fault of " + text, NONE, x.fault());
-            return -99;
-        }
-    }
-
-    private static int faultOf(ReplayDesk x, String text) {
-        type(x, text);
-        boolean thrown = false;
-        try {
-            x.program();
-        } catch (IllegalArgumentException e) {
-            thrown = true;
-        }
-        due("program() throws for " + text, x.fault() != NONE, thrown);
-        return x.fault();
-    }
-
-    private static boolean isRefused(ReplayDesk x) {
-        try {
-            x.decide(0);
-            return false;
-        } catch (IllegalStateException e) {
-            return true;
-        }
-    }
-
-    private static void refuse(ReplayDesk x, int refused, int differs) {
-        // Not every event is looked at: no object is to be used for more than 512 calls.
-        String seen = lastEvent(x) + registers(x) + totals(x);
-        for (int i = 0; i < 2; i++) {
-            due("decide is refused", true, isRefused(x));
-            due("refused", refused, x.refused());
-            due("differs", differs, x.differs());
-        }
-        due("a refusal changes nothing", seen, lastEvent(x) + registers(x) + totals(x));
-    }
-
-    private static ReplayDesk decided(String text) {
-        ReplayDesk x = new ReplayDesk();
-        program(x, text);
-        x.decide(0);
-        return x;
-    }
-
-    private static int value(String text) {
-        return decided("a=" + text + ";").register(0);
-    }
-
-    private static int stepsOf(String text) {
-        return decided(text).total(4);
-    }
-
-    private static String registersOf(String text) {
-        ReplayDesk x = decided(text);
-        return x.register(0) + " " + x.register(1);
-    }
-
-    private static String event(ReplayDesk x, int i) {
-        return x.event(i, 0) + " " + x.event(i, 1) + " " + x.event(i, 2);
-    }
-
-    private static String lastEvent(ReplayDesk x) {
-        int size = x.total(0);
-        return size == 0 ? "none" : event(x, size - 1);
-    }
-
-    private static String allEvents(ReplayDesk x) {
-        StringBuilder all = new StringBuilder();
-        for (int i = 0; i < x.total(0); i++) {
-            all.append(event(x, i)).append('|');
-        }
-        return all.toString();
-    }
-
-    private static String registers(ReplayDesk x) {
-        StringBuilder all = new StringBuilder();
-        for (int r = 0; r < 8; r++) {
-            all.append(r == 0 ? "" : " ").append(x.register(r));
-        }
-        return all.toString();
-    }
-
-    private static String totals(ReplayDesk x) {
-        StringBuilder all = new StringBuilder();
-        for (int what = 0; what < 6; what++) {
-            all.append(what == 0 ? "" : " ").append(x.total(what));
-        }
-        return all.toString();
-    }
-
-    private static boolean hasNoEvent(ReplayDesk x, int i, int what) {
-        try {
-            x.event(i, what);
-            return false;
-        } catch (NoSuchElementException e) {
-            return true;
-        }
-    }
-
-    private static boolean hasNoRegister(ReplayDesk x, int r) {
-        try {
-            x.register(r);
-            return false;
-        } catch (NoSuchElementException e) {
-            return true;
-        }
-    }
-
-    private static void due(String what, Object want, Object got) {
-        if (!want.equals(got)) {
-            wrong++;
-            System.out.println(part + ": " + what + " answered " + got + ", due is " + want);
-        }
+    /** Two desks that were made alike, of which only one has had the refused call: nothing tells them apart. */
+    private static void leavesNoTrace(String what, Supplier<Desk> made, Consumer<Desk> refused, Consumer<Desk> after) {
+        Desk with = made.get();
+        Desk without = made.get();
+        refused.accept(with);
+        due("at once, " + what, without.seen(), with.seen());
+        after.accept(with);
+        after.accept(without);
+        due("afterwards, " + what, without.seen(), with.seen());
     }
 }
