@@ -85,9 +85,14 @@ final class Desk {
         }
     }
 
-    /** "good", or the answers of refused() and differs() behind a decide() that throws. */
+    /** "good", or the answers of refused() and differs() behind a decide() that throws, each time that it is called. */
     String refusal() {
-        return decide(0) == THROWS ? refused() + " at " + differs() : "good";
+        if (decide(0) != THROWS) {
+            return "good";
+        }
+        String first = refused() + " at " + differs();
+        boolean isAgain = decide(0) == THROWS && first.equals(refused() + " at " + differs());
+        return isAgain ? first : "at first " + first + ", then another";
     }
 
     int refused() {

@@ -2,6 +2,10 @@
 public final class ProgramTermsTest extends Sentences {
     private static final String SIGNS = ";=+-*<()?[]|,@";
     private static final String[] WORDS = {"act", "timer", "any", "ended", "sig", "now", "patch", "stop", "wait"};
+    // One of each sort, with a blank between any two tokens.
+    private static final String[] STATEMENTS = {"a = ( 1 + b ) * - 3 < 4 ;", "a = act 1 , b ;", "a = timer b ;", "a = wait b ;",
+        "a = any b , c ;", "a = ended b ;", "a = sig ;", "a = now ;", "a = patch 1 ;", "stop b ;", "? b [ a = 1 ; | a = 2 ; ]",
+        "@ b [ a = 1 ; ]"};
 
     public static void main(String[] args) {
         roomOfTheTape();
@@ -88,6 +92,10 @@ public final class ProgramTermsTest extends Sentences {
         for (char capital = 'A'; capital <= 'Z'; capital++) {
             due("capital " + capital, 0, fault(capital + "=1;"));
         }
+        for (char letter = 'a'; letter <= 'z'; letter++) {
+            due("a name that ends with " + letter, 0, fault("a" + letter + "=1;"));
+            due("a name that begins with " + letter, 0, fault(letter + "a=1;"));
+        }
         due("a capital word", 2, fault("a=NOW;"));
         due("a capital within a word", 2, fault("a=nOw;"));
         due("a capital behind a register", 1, fault("aB=1;"));
@@ -115,6 +123,10 @@ public final class ProgramTermsTest extends Sentences {
             due(word + " with a letter more", 2, fault("a=" + word + "s 1,1;"));
             due(word + " with a letter ahead", 2, fault("a=x" + word + " 1,1;"));
             due(word + " with a letter less", 2, fault("a=" + word.substring(0, word.length() - 1) + " 1,1;"));
+            for (int i = 0; i < word.length(); i++) {
+                String another = word.substring(0, i) + "x" + word.substring(i + 1);
+                due(another + " is no word", 2, fault("a=" + another + " 1,1;"));
+            }
         }
     }
 
@@ -171,9 +183,7 @@ public final class ProgramTermsTest extends Sentences {
     private static void sortsOfStatements() {
         sentence("r = X; r = act NUMBER, X; r = timer X; r = wait s; r = any s, t; r = ended s; r = sig; r = now; r = patch NUMBER;"
                 + " stop X;");
-        String[] statements = {"a = b ;", "a = act 1 , b ;", "a = timer b ;", "a = wait b ;", "a = any b , c ;", "a = ended b ;", "a = sig ;",
-            "a = now ;", "a = patch 1 ;", "stop b ;", "? b [ a = 1 ; | a = 2 ; ]", "@ b [ a = 1 ; ]"};
-        for (String statement : statements) {
+        for (String statement : STATEMENTS) {
             due(statement, NONE, fault(statement));
             for (int at = 0; at < statement.length(); at++) {
                 if (at == 0 || statement.charAt(at - 1) == ' ') {
@@ -330,9 +340,7 @@ public final class ProgramTermsTest extends Sentences {
         due("a block that is open", 7, fault("@1[a=1;"));
         due("a full tape", 400, fault("a=1" + " ".repeat(397)));
         due("a full tape of loops", 400, fault("@0[]".repeat(99) + "@0[ "));
-        String[] statements = {"a = ( 1 + 2 ) * - 3 < 4 ;", "a = act 1 , b ;", "a = timer b ;", "a = wait b ;", "a = any b , c ;",
-            "a = ended b ;", "a = sig ;", "a = now ;", "a = patch 1 ;", "stop b ;", "? b [ a = 1 ; | a = 2 ; ]", "@ b [ a = 1 ; ]"};
-        for (String statement : statements) {
+        for (String statement : STATEMENTS) {
             for (int end = statement.indexOf(' '); end > 0; end = statement.indexOf(' ', end + 1)) {
                 due("cut off: " + statement.substring(0, end), end, fault(statement.substring(0, end)));
             }

@@ -2,8 +2,8 @@
 public final class RunTermsTest extends Sentences {
     // Ends behind its 999th step, with a = 499.
     private static final String STEPS_999 = "@a<499[a=a+1;]";
-    private static final String[] EACH_A_STEP = {"b=1;", "b=act 1,1;", "b=timer 1;", "b=wait h;", "b=any h,h;", "b=ended h;", "b=sig;", "b=now;",
-        "b=patch 1;", "stop 1;", "?0[|]", "@0[]"};
+    private static final String[] EACH_A_STEP = {"b=1;", "b=act 1,1;", "b=timer 1;", "b=wait h;", "b=any h,h;", "b=ended h;",
+        "b=sig;", "b=now;", "b=patch 1;", "stop 1;", "?0[|]", "@0[]"};
     // Adds 198 acts, so that with the begin there are 199 events.
     private static final String EVENTS_199 = "@a<198[b=act 1,a;a=a+1;]";
 
