@@ -1,9 +1,13 @@
 import java.util.function.Consumer;
 import java.util.function.Supplier;
 
-/** The promises, from the first to the last; each sentence with ordinary inputs, the edges that it names, and wrong inputs. */
+/** The first section and the promises, from the first to the last; each sentence with ordinary inputs, the edges that it names, and wrong inputs. */
 public final class PromiseTest extends Sentences {
     public static void main(String[] args) {
+        goOnFromHistoriesAlone();
+        eachDecisionAdds();
+        doneAgain();
+        marks();
         lastCall();
         newObject();
         objectsApart();
@@ -50,6 +54,71 @@ public final class PromiseTest extends Sentences {
     }
 
     // What it is, and promise 1
+
+    private static void goOnFromHistoriesAlone() {
+        sentence("Programs that wait for what others do, and go on from their histories alone");
+        String text = "@1[a=act 1,c;b=timer 9;d=any a,b;?d<2[e=wait a;|e=-7;]f=sig;g=now;?f[c=c+e*g;|stop c;]]";
+        Desk straight = Desk.with(text);
+        Desk forgetful = Desk.with(text);
+        int[][] others = {{8, 0, 1}, {5, 2, 3}, {7, 7, 0}, {8, 0, 2}, {6, 12, 0}, {8, 0, 0}};
+        for (int[] other : others) {
+            due("straight on, " + other[0], true, straight.happen(other[0], other[1], other[2]));
+            due("forgetful, " + other[0], true, forgetful.happen(other[0], other[1], other[2]));
+            forgetful.crash();
+            due("as many commands", straight.decide(other[0]), forgetful.decide(other[0]));
+            due("all that is seen", straight.seen(), forgetful.seen());
+        }
+        due("both have stopped", "4 at -1, 4 at -1", straight.refusal() + ", " + forgetful.refusal());
+    }
+
+    private static void eachDecisionAdds() {
+        sentence("each decision adds what the program wants;");
+        Desk x = Desk.with("a=act 4,6;b=wait a;c=timer b;d=patch 3;e=wait c;stop 8;");
+        due("an act", 1, x.decide(1));
+        due("still waiting", 0, x.decide(2));
+        x.happen(5, 1, 70);
+        due("a timer and a mark", 2, x.decide(3));
+        x.happen(7, 5, 0);
+        due("a stop", 1, x.decide(4));
+        due("all of it", "0 0 1, 1 4 6, 0 0 2, 5 1 70, 0 0 3, 2 0 70, 3 3 0, 7 5 0, 0 0 4, 4 0 8", x.events());
+    }
+
+    private static void doneAgain() {
+        sentence("done again from the beginning it must want the same, or it is told where it doesn't;");
+        Desk x = Desk.decided("a=act 1,1;b=act 2,2;c=wait a;d=act 3,3;e=wait d;");
+        x.happen(5, 1, 5);
+        x.decide(1);
+        x.program("b=act 1,1;d=act 2,2;a=wait b;f=act 3,a-2;e=wait f;");
+        due("the same in other words", "good", x.refusal());
+        x.program("a=act 1,1;b=act 2,3;c=wait a;d=act 3,3;e=wait d;");
+        due("another in the first decision", "2 at 2", x.refusal());
+        x.program("a=act 1,1;b=act 2,2;c=wait a;d=act 3,c;e=wait d;");
+        due("another in the second decision", "2 at 5", x.refusal());
+        x.program("a=act 1,1;c=wait a;d=act 3,3;e=wait d;");
+        due("one less", "2 at 2", x.refusal());
+        x.program("a=act 1,1;b=act 2,2;c=wait a;d=act 3,3;d=act 3,3;e=wait d;");
+        due("one more", "2 at 6", x.refusal());
+    }
+
+    private static void marks() {
+        sentence("marks let new programs go new ways on old histories.");
+        String patched = "c=patch 9;?c[a=act 2,5;|a=act 1,5;]b=wait a;?c[|d=patch 8;]stop b+d;";
+        Desk x = Desk.decided("a=act 1,5;b=wait a;stop b;");
+        x.program("a=act 2,5;b=wait a;stop b;");
+        due("no mark", "2 at 1", x.refusal());
+        x.program(patched);
+        due("the old way", 0, x.decide(1));
+        x.happen(5, 1, 7);
+        due("the new way from here", 2, x.decide(2));
+        due("the old history", "0 0 0, 1 1 5, 0 0 1, 5 1 7, 0 0 2, 3 8 0, 4 0 8", x.events());
+        x.clear();
+        due("the new way from the beginning", 2, x.decide(3));
+        due("the new history", "0 0 3, 3 9 0, 1 2 5", x.events());
+        x.crash();
+        due("the new way again", 0, x.decide(4));
+        x.program("a=act 1,5;b=wait a;stop b;");
+        due("the old program knows no mark", "2 at 1", x.refusal());
+    }
 
     private static void lastCall() {
         sentence("An object is used for at most 512 calls after it has been made");
